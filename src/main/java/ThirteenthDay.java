@@ -778,7 +778,8 @@ public final class ThirteenthDay {
         int moving = trains.lineUp(tick);
         for (int place = 0; place < moving; place++) {
             int train = trains.inPlace(place);
-            if (trains.move(train, land)) {
+            int wait = trains.waitOf(train, land);
+            if (trains.move(train, wait, land)) {
                 finish(train);
             }
         }
@@ -1000,7 +1001,10 @@ public final class ThirteenthDay {
         }
 
         void add(int row, int column, int more) {
-            set(row, column, get(row, column) + more);
+            int at = row * width + column;
+            if (row >= 0 && column >= 0 && column < width && at >= 0 && at < cells.length) {
+                cells[at] += more;
+            }
         }
 
         void fill(int value) {
@@ -1032,9 +1036,10 @@ public final class ThirteenthDay {
         static final int OPEN = 4;
         static final int DOUBLE = 5;
         static final int THROUGH = 6;
+        static final int TICKS = 7;
 
         private final Table stations = new Table(MOST_STATIONS, 5);
-        private final Table lines = new Table(MOST_LINES, 7);
+        private final Table lines = new Table(MOST_LINES, 8);
         /** From row to column: TIME and first LINE of the way, NONE without one. */
         private final Table times = new Table(MOST_STATIONS, MOST_STATIONS);
         private final Table firsts = new Table(MOST_STATIONS, MOST_STATIONS);
@@ -1086,6 +1091,7 @@ public final class ThirteenthDay {
             lines.set(line, FAR, far);
             lines.set(line, BLOCKS, blocks);
             lines.set(line, PACE, 2 + grade);
+            lines.set(line, TICKS, blocks * (2 + grade));
             lines.set(line, OPEN, 1);
             lines.set(line, DOUBLE, isDouble ? 1 : 0);
             lineCount++;
@@ -1130,10 +1136,6 @@ public final class ThirteenthDay {
 
         boolean isDouble(int line) {
             return lines.get(line, DOUBLE) == 1;
-        }
-
-        int ticksOf(int line) {
-            return lines.get(line, BLOCKS) * lines.get(line, PACE);
         }
 
         /** The STATION at which one is behind a LINE. */
@@ -1183,7 +1185,7 @@ public final class ThirteenthDay {
             int behind = times.get(lines.get(line, toEnd), goal);
             if (lines.get(line, OPEN) == 1 && behind != NONE) {
                 int from = lines.get(line, fromEnd);
-                int time = ticksOf(line) + behind;
+                int time = lines.get(line, TICKS) + behind;
                 int before = times.get(from, goal);
                 times.set(from, goal, before == NONE ? time : Math.min(time, before));
             }
@@ -1201,7 +1203,7 @@ public final class ThirteenthDay {
             int from = lines.get(line, fromEnd);
             int behind = times.get(lines.get(line, toEnd), goal);
             boolean isWay = lines.get(line, OPEN) == 1 && behind != NONE
-                    && times.get(from, goal) == ticksOf(line) + behind;
+                    && times.get(from, goal) == lines.get(line, TICKS) + behind;
             if (isWay) {
                 firsts.set(from, goal, line);
             }
@@ -1580,7 +1582,7 @@ public final class ThirteenthDay {
                 offsets.set(slot, line, behind);
                 forwards.set(slot, line, isForward ? 1 : 0);
                 noteTrack(line, land);
-                behind += land.ticksOf(line);
+                behind += land.getLine(line, Land.TICKS);
                 at = land.endOf(line, isForward);
             }
             facts.set(slot, LINES, lines);
@@ -1591,7 +1593,7 @@ public final class ThirteenthDay {
 
         private void noteTrack(int line, Land land) {
             tracks.set(line, PACE, land.getLine(line, Land.PACE));
-            tracks.set(line, TICKS, land.ticksOf(line));
+            tracks.set(line, TICKS, land.getLine(line, Land.TICKS));
             tracks.set(line, DOUBLE, land.isDouble(line) ? 1 : 0);
         }
 
@@ -1649,8 +1651,9 @@ public final class ThirteenthDay {
         private int countAtRamps(int station, int tick) {
             int count = 0;
             for (int slot = 0; slot < SLOTS; slot++) {
-                if (isKept(slot) && facts.get(slot, RAILHEAD) == station) {
-                    int arrives = arrivesOf(slot);
+                int start = facts.get(slot, START);
+                if (start != NONE && facts.get(slot, RAILHEAD) == station) {
+                    int arrives = start + facts.get(slot, SPAN);
                     count += tick > arrives && tick <= arrives + facts.get(slot, UNLOADING) ? 1 : 0;
                 }
             }
@@ -1847,9 +1850,8 @@ public final class ThirteenthDay {
         private void placeIn(int train, int count, int tick) {
             int late = lateOf(train, tick);
             int place = count;
-            while (place > 0 && lateOf(places.get(place - 1, 0), tick) < late) {
+            for (; place > 0 && lateOf(places.get(place - 1, 0), tick) < late; place--) {
                 places.set(place, 0, places.get(place - 1, 0));
-                place--;
             }
             places.set(place, 0, train);
         }
@@ -1910,10 +1912,10 @@ public final class ThirteenthDay {
             return trains.get(train, BLOCK) + (trains.get(train, FORWARD) == 1 ? 1 : -1);
         }
 
-        /** MOVES a TRAIN, and tells whether it is DONE by that. */
-        boolean move(int train, Land land) {
+        /** MOVES a TRAIN that waits for this, and tells whether it is DONE by that. */
+        boolean move(int train, int wait, Land land) {
             int how = trains.get(train, HOW);
-            boolean isFree = waitOf(train, land) == WAITS_NOT;
+            boolean isFree = wait == WAITS_NOT;
             if (how == RUNS) {
                 run(train, isFree, land);
             } else if (how == STANDS) {
