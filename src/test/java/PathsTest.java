@@ -190,7 +190,7 @@ public final class PathsTest {
     }
 
     /** Forty LOADS, one each nine TICKS, over a LINE of 20 TICKS: none can go the other way. */
-    private static ThirteenthDay fullSingleLine() {
+    private static ThirteenthDay fullSingleLine(int from) {
         ThirteenthDay x = chain(3, 1, 5, false, 2);
         for (int k = 0; k < 5; k++) {
             x.unit(3, 8, 1, 0);
@@ -199,13 +199,13 @@ public final class PathsTest {
         x.railhead(0, 2, 6);
         x.railhead(1, 0, 6);
         for (int k = 0; k < 5; k++) {
-            check.is("plan: of the full LINE, " + k, 72 * k + 63, x.plan(k, 72 * k));
+            check.is("plan: of the full LINE, " + k, from + 72 * k + 63, x.plan(k, from + 72 * k));
         }
         return x;
     }
 
     private static void plansThatFoulAtALine() {
-        ThirteenthDay x = fullSingleLine();
+        ThirteenthDay x = fullSingleLine(0);
         long before = x.digest();
         check.is("plan: FOULS on LINE 1", -11, x.plan(5, 5));
         check.is("could: FOULS on LINE 1", -11, x.could(5, 82));
@@ -213,10 +213,12 @@ public final class PathsTest {
         check.is("plan: the last START of all, one too early", -11, x.could(5, 370 - 288));
         x.drop(4);
         check.is("plan: the first one behind all", 3 * 72 + 63 + 20 + 4, x.plan(5, 20));
-        ThirteenthDay y = fullSingleLine();
+        ThirteenthDay y = fullSingleLine(0);
         check.is("plan: its second LOAD finds none", -11, y.plan(5, 371 - 288));
         check.is("plan: both find one", 375, y.plan(5, 375 - 288));
-        ThirteenthDay z = fullSingleLine();
+        ThirteenthDay w = fullSingleLine(100);
+        check.is("plan: the LOAD ahead has the last START", -11, w.plan(5, 471 - 288));
+        ThirteenthDay z = fullSingleLine(0);
         check.is("supply: FOULS at the RAMPS alone", -3, z.supply(0, 1));
         check.is("many: no SUPPLY by that", 0, z.many(8));
     }
@@ -373,7 +375,7 @@ public final class PathsTest {
         check.is("change: without a way", -2, x.change(1));
         check.is("change: SECTOR stays", 0, x.ofUnit(1, 3));
         check.is("change: PATHS stay", 4, x.many(7));
-        ThirteenthDay y = fullSingleLine();
+        ThirteenthDay y = fullSingleLine(0);
         y.aim(3, 5, 2);
         y.railhead(2, 0, 6);
         y.aim(3, 0, 1);
@@ -411,8 +413,9 @@ public final class PathsTest {
         x.pass(60);
         check.is("change: what had gone is at the SECTOR for which it went", 1, x.ofSector(0, 2));
         check.is("change: the others are at the new one", 3, x.ofSector(1, 2));
-        check.is("change: all LOADS have gone", 0, x.change(1));
         check.is("variant: all LOADS have gone", 0, x.variant(1, 1));
+        check.is("change: all LOADS have gone", 0, x.change(1));
+        check.is("change: all LOADS have gone, SECTOR stays", 1, x.ofUnit(0, 3));
     }
 
     private static void variants() {

@@ -12,6 +12,7 @@ public final class TrainsTest {
         noWay();
         singleLinesInOneDirection();
         doubleLinesInBoth();
+        blocksFromTheFarEnd();
         theLatestMovesFirst();
         waterAndDryTrains();
         theWayOfEachMoment();
@@ -268,6 +269,28 @@ public final class TrainsTest {
         check.is("double: both are on the LINE", 2, x.ofLine(0, 5));
         check.is("double: in one BLOCK", x.ofTrain(0, 4), x.ofTrain(1, 4));
         check.is("double: sound", true, x.isSound());
+    }
+
+    private static void blocksFromTheFarEnd() {
+        ThirteenthDay x = chain(2, 1, 1, 2, true);
+        x.unit(0, 2, 1, 1);
+        x.plan(0, 0);
+        x.order(1);
+        x.pass(8);
+        isTrain("CALLED at 3, READY at 8", x, 0, 0, 0, 1, 0, 1, 2, 0, 4, 1, 0);
+        x.box(0, 10);
+        x.pass(6);
+        check.is("far end: the last BLOCK is taken for the next one", 2, x.waits(1));
+        x.pass(6);
+        check.is("far end: it is in the next BLOCK", 0, x.ofTrain(0, 4));
+        check.is("far end: the other one is behind it", 1, x.ofTrain(1, 4));
+        x.box(0, 2);
+        x.pass(2);
+        check.is("far end: the next BLOCK is taken", 2, x.waits(1));
+        x.pass(2);
+        check.is("far end: behind BLOCK 0 is NEAR", 0, x.ofTrain(0, 3));
+        check.is("far end: it stands", 0, x.ofTrain(0, 2));
+        check.is("far end: the other one follows", 0, x.ofTrain(1, 4));
     }
 
     private static void theLatestMovesFirst() {
