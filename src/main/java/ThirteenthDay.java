@@ -1599,7 +1599,7 @@ public final class ThirteenthDay {
 
         /** Keeps a PATH that was laid with its first START; without one tells why not, and keeps nothing. */
         int findStart(int slot, int from, int last) {
-            for (int start = from; start <= last; start++) {
+            for (int start = from; start < last + 1; start++) {
                 facts.set(slot, START, start);
                 if (firstFouledLine(slot) == NONE && !foulsAtRamps(slot)) {
                     return start;
@@ -1627,10 +1627,10 @@ public final class ThirteenthDay {
             int opposite = tracks.get(line, DOUBLE) == 1 ? 0 : tracks.get(line, TICKS);
             for (int other = 0; other < SLOTS; other++) {
                 int start = facts.get(other, START);
-                int offset = offsets.get(other, line);
-                if (start != NONE && offset != OFF && other != slot) {
+                if (start != NONE && other != slot && offsets.get(other, line) != OFF) {
                     boolean isSameWay = forwards.get(other, line) == forwards.get(slot, line);
-                    if (Math.abs(start + offset - enters) < (isSameWay ? pace : opposite)) {
+                    int gap = Math.abs(start + offsets.get(other, line) - enters);
+                    if (gap < (isSameWay ? pace : opposite)) {
                         return true;
                     }
                 }
