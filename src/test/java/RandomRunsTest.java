@@ -4,7 +4,8 @@ import java.util.concurrent.Callable;
 /** Long runs of calls, ordinary ones and wrong ones, asked of the class and of SecondOpinion. */
 public final class RandomRunsTest {
     private static final int RUNS = 400;
-    private static final int CALLS = 430;
+    /** As many as an object is used for. */
+    private static final int CALLS = 512;
     private static int wrong = 0;
     private static long calls = 0;
     private static final long[] waitsSeen = new long[7];
@@ -16,6 +17,7 @@ public final class RandomRunsTest {
     private final ThirteenthDay x = new ThirteenthDay();
     private final SecondOpinion y = new SecondOpinion();
     private final StringBuilder log = new StringBuilder();
+    private int told = 0;
     private final int wildness;
     private final int haste;
     /** Whether many LOADS that are long unloaded want the same RAMPS and LINES, so that PATHS are hard to find. */
@@ -62,13 +64,15 @@ public final class RandomRunsTest {
 
     private void play() {
         setUp();
-        for (int k = 0; k < CALLS && wrong == 0; k++) {
+        for (int k = 0; told < CALLS - 2 && wrong == 0; k++) {
             oneCall();
-            if (k % 16 == 0) {
+            if (k % 16 == 0 && told < CALLS - 2) {
                 both("digest()", x::digest, y::digest);
             }
         }
-        both("digest()", x::digest, y::digest);
+        while (told < CALLS) {
+            both("digest()", x::digest, y::digest);
+        }
         for (int what = 0; what <= 12; what++) {
             mostOf[what] = Math.max(mostOf[what], y.many(what));
         }
@@ -301,6 +305,7 @@ public final class RandomRunsTest {
 
     private void both(String call, Callable<?> ofX, Callable<?> ofY) {
         calls++;
+        told++;
         String due = answer(ofY);
         String got = answer(ofX);
         log.append(call).append(" = ").append(due).append('\n');
