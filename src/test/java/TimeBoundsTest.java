@@ -20,6 +20,7 @@ public final class TimeBoundsTest {
         theKey();
         textsOfTwoDigits();
         checksumsWrapAround();
+        theForecastOfTheChecksum();
         isSoundAtEveryTick();
         check.end();
     }
@@ -334,6 +335,19 @@ public final class TimeBoundsTest {
             positive += x.digest() > 0 ? 1 : 0;
         }
         check.is("digest: below and above 0", true, negative > 0 && positive > 0);
+    }
+
+    /** forecast() of the DAY 13: one LOAD comes just by its begin, another one a TICK later. */
+    private static void theForecastOfTheChecksum() {
+        ThirteenthDay x = Worlds.camp();
+        for (int sector = 0; sector < 2; sector++) {
+            x.unit(1, 2, 0, sector);
+            x.plan(sector, 1862);
+            check.is("digest: by DAY 12", 0, x.forecast(sector, 12));
+            check.is("digest: by DAY 13", 4, x.forecast(sector, 13));
+            check.is("digest: by DAY 14", 8, x.forecast(sector, 14));
+            check.is("digest: of DAY 13", unbounded(x).longValue(), x.digest());
+        }
     }
 
     private static void isSoundAtEveryTick() {
