@@ -1235,9 +1235,8 @@ public final class ThirteenthDay {
         private static final int STAGE = 0;
         private static final int AIM = 1;
         private static final int COMES = 2;
-        private static final int ON_TRAIN = 1;
-        private static final int MARCHING = 2;
-        private static final int THERE = 3;
+        private static final int MARCHING = 1;
+        private static final int THERE = 2;
         private static final int BAKERY = 4;
         private static final int[] WEIGHTS = {1, 4, 3, 6, 0};
         private static final int[] UNLOADINGS = {2, 3, 6, 9, 4};
@@ -1378,7 +1377,6 @@ public final class ThirteenthDay {
         }
 
         void leave(int unit, int slot, int sector) {
-            loads.set(slot, STAGE, ON_TRAIN);
             loads.set(slot, AIM, sector);
             units.add(unit, GONE, 1);
         }

@@ -19,6 +19,7 @@ public final class LandBoundsTest {
         aClosedLineIsGoneOnWith();
         oneTrainInABlock();
         bothDirections();
+        doubleAndSingleLinesOfALand();
         check.end();
     }
 
@@ -314,24 +315,47 @@ public final class LandBoundsTest {
 
     /** On a double LINE that is for each direction by itself; on a single one never TRAINS in both directions. */
     private static void bothDirections() {
-        for (int twin = 0; twin < 2; twin++) {
-            ThirteenthDay x = Worlds.chain(2, 3, 5, 1, twin == 1, 0);
-            x.railhead(0, 1, 6);
-            x.railhead(1, 0, 6);
-            x.unit(0, 1, 0, 0);
-            x.unit(0, 1, 1, 1);
-            x.foul(0, 40);
-            x.foul(1, 40);
-            x.plan(0, 30);
-            x.plan(1, 30);
-            x.order(3);
-            x.pass(40);
-            check.is("directions: in the one BLOCK", 1 + twin, x.ofLine(0, 5));
-            check.is("directions: the other one waits", twin == 1 ? 0 : 2, x.waits(1));
-            x.pass(2);
-            check.is("directions: the first one stands", 0, x.ofTrain(0, 2));
-            check.is("directions: the other one", twin == 1 ? 0 : 1, x.ofTrain(1, 2));
-            check.is("directions: sound", true, x.isSound());
+        for (int blocks = 1; blocks <= 5; blocks++) {
+            for (int twin = 0; twin < 2; twin++) {
+                ThirteenthDay x = Worlds.chain(2, 3, 5, blocks, twin == 1, 0);
+                x.railhead(0, 1, 6);
+                x.railhead(1, 0, 6);
+                x.unit(0, 1, 0, 0);
+                x.unit(0, 1, 1, 1);
+                x.foul(0, 40);
+                x.foul(1, 40);
+                x.plan(0, 20);
+                x.plan(1, 20);
+                x.order(3);
+                x.pass(39);
+                check.is("directions: both stand", 5, x.waits(1));
+                for (int tick = 40; tick < 40 + 2 * blocks; tick++) {
+                    x.pass(1);
+                    check.is("directions: on the LINE", 1 + twin, x.ofLine(0, 5));
+                    check.is("directions: the other one waits for the LINE", twin == 1, x.waits(1) != 2);
+                    check.is("directions: sound", true, x.isSound());
+                }
+                x.pass(1);
+                check.is("directions: the first one stands", "0 staff 0/0 at 1", x.tell(0));
+                String due = twin == 1 ? "1 staff 1/0 at 0" : "1 staff 1/0 on 0." + (blocks - 1);
+                check.is("directions: the other one", due, x.tell(1));
+            }
+        }
+    }
+
+    /** LINES 0 to 4 of a land are double, LINES 5 to 7 single: there one goes behind the other direction. */
+    private static void doubleAndSingleLinesOfALand() {
+        for (int line = 0; line < 8; line++) {
+            ThirteenthDay x = new ThirteenthDay();
+            x.land(2, 0);
+            x.railhead(0, x.ofLine(line, 1), 6);
+            x.railhead(1, x.ofLine(line, 0), 6);
+            x.unit(0, 1, x.ofLine(line, 0), 0);
+            x.unit(0, 1, x.ofLine(line, 1), 1);
+            check.is("land: START", 50, x.plan(0, 50));
+            check.is("land: by this LINE", 1, x.planned(line, 50));
+            check.is("land: START of the other direction", line < 5 ? 50 : 54, x.plan(1, 50));
+            check.is("land: both in one TICK", line < 5 ? 2 : 1, x.planned(line, 53));
         }
     }
 }

@@ -25,6 +25,7 @@ public final class PathBoundsTest {
         aims();
         fromTickAnd36On();
         firstAllAreDroppedThenPlanned();
+        itsOwnAreDroppedToo();
         whoIsToChange();
         allOrNothing();
         noRailheadToChangeTo();
@@ -457,6 +458,21 @@ public final class PathBoundsTest {
             check.is("drop first: LOADS", 1 + all, x.change(0));
             check.is("drop first: START of 0", all == 1 ? 36 : 45, x.path(0, 0, 0));
             check.is("drop first: START of 1", all == 1 ? 45 : 36, x.path(1, 0, 0));
+        }
+    }
+
+    /** Its own PATHS are not in its way either: 30 and 39 would leave no room ahead of 48. */
+    private static void itsOwnAreDroppedToo() {
+        for (int unit = 0; unit < 6; unit++) {
+            ThirteenthDay x = yard(1);
+            for (int k = 0; k <= unit; k++) {
+                x.unit(3, 2, 0, 0);
+            }
+            check.is("its own: START of the last", 39, x.plan(unit, 30));
+            x.aim(0, unit, 1);
+            check.is("its own: LOADS", 2, x.change(0));
+            check.is("its own: START of 0", 36, x.path(unit, 0, 0));
+            check.is("its own: START of 1", 45, x.path(unit, 1, 0));
         }
     }
 

@@ -14,6 +14,8 @@ public final class StoreBoundsTest {
         bakeriesBringFirst();
         suppliesAreNoLoads();
         sixSupplies();
+        theSixthGoesFirst();
+        sixAtOneTick();
         suppliesToEachSector();
         supplyFromTickTo2880();
         forecastOfWhatMarches();
@@ -234,6 +236,53 @@ public final class StoreBoundsTest {
         t.is("all DONE", 0, x -> x.many(8));
         t.is("STORE", 20 + 7 * 24, x -> x.ofSector(0, 7));
         t.liveOn();
+    }
+
+    /** Whatever is ahead: the sixth one goes, though the five that were sent ahead of it do not. */
+    private static void theSixthGoesFirst() {
+        ThirteenthDay x = Worlds.camp();
+        for (int k = 0; k < 5; k++) {
+            x.supply(0, 100);
+        }
+        check.is("sixth: START", 5, x.supply(1, 5));
+        x.pass(5);
+        check.is("sixth: it has gone", 1, x.many(5));
+        check.is("sixth: to its SECTOR", 1, x.ofTrain(0, 1));
+        x.pass(95);
+        check.is("sixth: three of five have gone", 4, x.many(5));
+        x.pass(3);
+        check.is("sixth: all have gone", 6, x.many(5));
+    }
+
+    /** Six of one START: three to STATION 0 itself, the others by three LINES. */
+    private static void sixAtOneTick() {
+        for (int engines = 0; engines <= 7; engines++) {
+            ThirteenthDay x = new ThirteenthDay();
+            x.station(3, 5, engines, false);
+            x.station(3, 5, 0, false);
+            x.station(3, 5, 0, false);
+            x.line(0, 1, 5, true, 2);
+            x.line(0, 2, 5, true, 2);
+            x.line(0, 1, 5, true, 2);
+            for (int sector = 0; sector < 3; sector++) {
+                x.railhead(sector, sector, 6);
+            }
+            int[] sectors = {1, 0, 2, 0, 0, 1};
+            for (int k = 0; k < 6; k++) {
+                if (k == 5) {
+                    x.bridge(0);
+                }
+                check.is("one TICK: START", 40, x.supply(sectors[k], 40));
+            }
+            x.bridge(0);
+            x.pass(39);
+            check.is("one TICK: none has gone", 0, x.many(5));
+            x.pass(1);
+            check.is("one TICK: as many as there are ENGINES", Math.min(6, engines), x.many(5));
+            for (int train = 0; train < x.many(5); train++) {
+                check.is("one TICK: in the order in which they were sent", sectors[train], x.ofTrain(train, 1));
+            }
+        }
     }
 
     private static void suppliesToEachSector() {

@@ -7,6 +7,7 @@ public final class TrainBoundsTest {
         atItsStart();
         asItIsReady();
         lateFromTheTickBehindArrives();
+        theGreatestLateFirst();
         withoutAnEngine();
         whoHasTheLastEngine();
         severalAtOneTick();
@@ -103,6 +104,44 @@ public final class TrainBoundsTest {
         check.is("late: DONE", 3, x.ofTrain(0, 2));
         check.is("late: 0, if DONE", 0, x.ofTrain(0, 7));
         check.is("late: the greatest of none", 0, x.many(10));
+    }
+
+    /** The one with the greatest LATE first: four TRAINS in every order of their STARTS leave HOME as that tells. */
+    private static void theGreatestLateFirst() {
+        for (int order = 0; order < 24; order++) {
+            int[] place = {order / 6, order / 2 % 3, order % 2, 0};
+            int[] unitAt = new int[4];
+            boolean[] isTaken = new boolean[4];
+            for (int k = 0; k < 4; k++) {
+                int unit = 0;
+                for (int skip = place[k]; isTaken[unit] || skip > 0; unit++) {
+                    skip -= isTaken[unit] ? 0 : 1;
+                }
+                isTaken[unit] = true;
+                unitAt[k] = unit;
+            }
+            ThirteenthDay x = Worlds.chain(2, 3, 5, 1, true, 0);
+            x.railhead(0, 1, 6);
+            for (int unit = 0; unit < 4; unit++) {
+                x.unit(0, 1, 0, 0);
+            }
+            for (int k = 0; k < 4; k++) {
+                check.is("greatest: START", 2 * k, x.plan(unitAt[k], 2 * k));
+            }
+            x.foul(0, 60);
+            x.order(15);
+            x.pass(58);
+            check.is("greatest: all stand at HOME", 4, x.ofStation(0, 4));
+            for (int k = 0; k < 4; k++) {
+                x.pass(2);
+                for (int other = 0; other < 4; other++) {
+                    int how = x.ofTrain(unitAt[other], 2);
+                    check.is("greatest: who has left at " + x.many(0), other <= k, how != 0 || other < k);
+                }
+                check.is("greatest: UNITS went as they are numbered", unitAt[k], x.ofTrain(unitAt[k], 0));
+                check.is("greatest: who leaves", "on 0.0", x.tell(unitAt[k]).substring(12));
+            }
+        }
     }
 
     /** Without an ENGINE at HOME a LOAD does not go, and has its PATH still. */
