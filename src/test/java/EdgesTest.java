@@ -1,5 +1,3 @@
-import java.lang.reflect.InvocationTargetException;
-import java.lang.reflect.Method;
 import java.util.ArrayList;
 import java.util.List;
 
@@ -12,17 +10,17 @@ public final class EdgesTest {
     private static final int CALLS_OF_AN_OBJECT = 512;
     private static final int[] EITHER = {0, 1};
 
-    /** What a war is made of: calls by name, with their arguments. */
+    /** What a war is made of: calls with their arguments. */
     private static final class War {
         final String name;
-        final List<Object[]> calls = new ArrayList<>();
+        final List<String> calls = new ArrayList<>();
 
         War(String name) {
             this.name = name;
         }
 
-        War then(String call, int... arguments) {
-            calls.add(new Object[] {call, arguments});
+        War then(String... more) {
+            calls.addAll(List.of(more));
             return this;
         }
 
@@ -33,7 +31,7 @@ public final class EdgesTest {
 
         War passTo(int from, int to) {
             for (int tick = from; tick < to; tick += 144) {
-                then("pass", Math.min(144, to - tick));
+                then("pass " + Math.min(144, to - tick));
             }
             return this;
         }
@@ -54,7 +52,7 @@ public final class EdgesTest {
     }
 
     public static void main(String[] args) {
-        War busy = busy();
+        War busy = new War("busy").then(Worlds.BUSY);
         War full = full();
         War[] wars = {
             new War("new"),
@@ -73,54 +71,37 @@ public final class EdgesTest {
         }
     }
 
-    /** As Worlds.busy. */
-    private static War busy() {
-        War w = new War("busy").then("land", 2, 1);
-        w.then("station", 1, 1, 3, 1).then("station", 2, 0, 2, 0);
-        w.then("line", 5, 6, 3, 0, 2).then("line", 6, 0, 5, 1, 0);
-        w.then("railhead", 0, 4, 12).then("railhead", 1, 5, 6);
-        w.then("unit", 1, 3, 0, 0).then("unit", 3, 2, 1, 0).then("unit", 2, 8, 6, 1);
-        w.then("unit", 4, 1, 2, 1).then("unit", 0, 2, 0, 2);
-        w.then("plan", 0, 0).then("plan", 1, 5).then("plan", 2, 8).then("plan", 3, 60);
-        w.then("supply", 1, 1).then("supply", 0, 39).then("supply", 0, 70).then("order", 23);
-        w.then("foe", 0, 0, 1, 9).then("foe", 1, 1, 2, 60).then("foe", 2, 2, 3, 1);
-        w.then("aim", 1, 0, 1).then("aim", 2, 2, 0).then("rumour", 1);
-        w.then("pass", 8).then("stop", 1).then("pass", 24);
-        return w.then("bridge", 7).then("box", 4, 3).then("box", 5, 20).then("foul", 0, 40).then("pass", 8);
-    }
-
     /** As many STATIONS, LINES, UNITS, SUPPLIES and of the foe as there can be, at TICK 30. */
     private static War full() {
         War w = new War("full");
         for (int k = 0; k < 10; k++) {
-            w.then("station", 1 + k % 3, k % 6, 9 - k % 2, k % 2);
+            w.then("station " + (1 + k % 3) + " " + k % 6 + " " + (9 - k % 2) + " " + k % 2);
         }
         for (int k = 0; k < 14; k++) {
-            w.then("line", k % 9, k % 9 + 1, 1 + k % 5, k % 2, k % 3);
+            w.then("line " + k % 9 + " " + (k % 9 + 1) + " " + (1 + k % 5) + " " + k % 2 + " " + k % 3);
         }
-        w.then("railhead", 0, 9, 6).then("railhead", 1, 1, 144).then("railhead", 2, 0, 24);
+        w.then("railhead 0 9 6", "railhead 1 1 144", "railhead 2 0 24");
         for (int k = 0; k < 6; k++) {
-            w.then("unit", k % 5, 1 + k, k % 4, k % 3);
+            w.then("unit " + k % 5 + " " + (1 + k) + " " + k % 4 + " " + k % 3);
         }
         for (int k = 0; k < 4; k++) {
-            w.then("plan", k, 10 * k);
+            w.then("plan " + k + " " + 10 * k);
         }
         for (int k = 0; k < 6; k++) {
-            w.then("supply", k % 3, 3 * k);
+            w.then("supply " + k % 3 + " " + 3 * k);
             for (int plan = 0; plan < 3; plan++) {
-                w.then("foe", plan, k % 3, 2 + k, 10 + k);
+                w.then("foe " + plan + " " + k % 3 + " " + (2 + k) + " " + (10 + k));
             }
         }
-        return w.then("order", 31).then("aim", 0, 0, 1).then("aim", 0, 3, 2).then("pass", 27).then("stop", 1)
-                .then("stop", 4).then("pass", 3);
+        return w.then("order 31", "aim 0 0 1", "aim 0 3 2", "pass 27", "stop 1", "stop 4", "pass 3");
     }
 
     private void begin() {
         x = new ThirteenthDay();
         y = new SecondOpinion();
         calls = 0;
-        for (Object[] call : war.calls) {
-            both((String) call[0], (int[]) call[1]);
+        for (String call : war.calls) {
+            both(Calls.name(call), Calls.arguments(call));
         }
     }
 
@@ -214,8 +195,8 @@ public final class EdgesTest {
 
     /** Tells both, and whether the call was taken. */
     private boolean both(String call, int... arguments) {
-        String due = answer(y, SecondOpinion.class, call, arguments);
-        String got = answer(x, ThirteenthDay.class, call, arguments);
+        String due = Calls.answer(y, call, arguments);
+        String got = Calls.answer(x, call, arguments);
         asked++;
         calls++;
         if (!due.equals(got)) {
@@ -228,34 +209,5 @@ public final class EdgesTest {
         }
         refused += due.startsWith("throws.") ? 1 : 0;
         return !due.startsWith("throws.");
-    }
-
-    private static String answer(Object of, Class<?> kind, String name, int[] arguments) {
-        Method method = methodOf(kind, name);
-        Class<?>[] types = method.getParameterTypes();
-        Object[] given = new Object[arguments.length];
-        for (int k = 0; k < given.length; k++) {
-            given[k] = types[k] == boolean.class ? (Object) (arguments[k] != 0) : (Object) arguments[k];
-        }
-        try {
-            return String.valueOf(method.invoke(of, given));
-        } catch (InvocationTargetException e) {
-            return "throws." + e.getCause().getClass().getName();
-        } catch (IllegalAccessException e) {
-            throw new IllegalStateException(name + " can not be called");
-        }
-    }
-
-    private static Method methodOf(Class<?> kind, String name) {
-        for (Method method : ThirteenthDay.class.getMethods()) {
-            if (method.getName().equals(name)) {
-                try {
-                    return kind.getDeclaredMethod(name, method.getParameterTypes());
-                } catch (NoSuchMethodException e) {
-                    throw new IllegalStateException(kind + " has no " + name);
-                }
-            }
-        }
-        throw new IllegalStateException("there is no " + name);
     }
 }

@@ -24,16 +24,8 @@ public final class PathsTest {
         check.end();
     }
 
-    /** STATIONS with so many RAMPS each, and a chain of LINES from 0 on. */
     private static ThirteenthDay chain(int stations, int ramps, int blocks, boolean isDouble, int grade) {
-        ThirteenthDay x = new ThirteenthDay();
-        for (int k = 0; k < stations; k++) {
-            x.station(ramps, 5, 9, false);
-        }
-        for (int k = 1; k < stations; k++) {
-            x.line(k - 1, k, blocks, isDouble, grade);
-        }
-        return x;
+        return Worlds.chain(stations, ramps, 5, blocks, isDouble, grade);
     }
 
     private static void plansOfAUnit() {

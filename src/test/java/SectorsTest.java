@@ -24,31 +24,8 @@ public final class SectorsTest {
         check.end();
     }
 
-    /** One STATION that is all: HOME, RAILHEAD of SECTORS 0 and 1 (MARCH 6); nobody needs a LINE. */
-    private static ThirteenthDay camp() {
-        ThirteenthDay x = new ThirteenthDay();
-        x.station(3, 5, 9, false);
-        x.railhead(0, 0, 6);
-        x.railhead(1, 0, 6);
-        return x;
-    }
-
-    private static void passTo(ThirteenthDay x, int tick) {
-        for (int k = 0; k < 30 && x.many(0) < tick; k++) {
-            x.pass(Math.min(144, tick - x.many(0)));
-        }
-    }
-
-    /** All LOADS of a KIND go to a SECTOR on DAY 0. */
-    private static int send(ThirteenthDay x, int kind, int loads, int sector) {
-        int unit = x.unit(kind, loads, 0, sector);
-        x.plan(unit, x.many(0));
-        x.order(1 << unit);
-        return unit;
-    }
-
     private static void refusedSupplies() {
-        ThirteenthDay x = camp();
+        ThirteenthDay x = Worlds.camp();
         x.station(1, 1, 1, false);
         x.pass(3);
         check.noPlace("supply: sector -1", x, () -> x.supply(-1, 3));
@@ -109,14 +86,14 @@ public final class SectorsTest {
         check.is("sent: whatever is ahead", 1, x.ofTrain(0, 1));
         x.pass(3);
         check.is("sent: the ENGINE is back behind those that go", 1, x.many(5));
-        passTo(x, 40);
+        Worlds.passTo(x, 40);
         check.is("sent: the first of two", 2, x.ofTrain(1, 1));
         check.is("sent: the last", 0, x.ofTrain(2, 1));
     }
 
     private static void marches() {
-        ThirteenthDay x = camp();
-        send(x, 0, 1, 0);
+        ThirteenthDay x = Worlds.camp();
+        Worlds.send(x, 0, 1, 0);
         x.unit(0, 1, 0, 0);
         x.plan(1, 0);
         x.unit(0, 1, 0, 1);
@@ -132,12 +109,12 @@ public final class SectorsTest {
         x.pass(1);
         check.is("march: there", 1, x.ofUnit(0, 9));
         check.is("march: the second one begins as it is unloaded", 18, x.ofSector(0, 12));
-        passTo(x, 19);
+        Worlds.passTo(x, 19);
         check.is("march: one LOAD there", 1, x.ofSector(0, 2));
-        passTo(x, 20);
+        Worlds.passTo(x, 20);
         check.is("march: two LOADS there", 2, x.ofSector(0, 2));
         check.is("march: another SECTOR has its own ROAD", 24, x.ofSector(1, 12));
-        ThirteenthDay y = camp();
+        ThirteenthDay y = Worlds.camp();
         for (int unit = 0; unit < 3; unit++) {
             y.unit(0, 1, 0, 0);
             y.plan(unit, 0);
@@ -158,7 +135,7 @@ public final class SectorsTest {
         y.railhead(0, 0, 100);
         int[] comes = {39, 43, 47};
         for (int unit = 0; unit < 3; unit++) {
-            passTo(y, comes[unit] - 1);
+            Worlds.passTo(y, comes[unit] - 1);
             check.is("road: not there, " + unit, 0, y.ofUnit(unit, 9));
             y.pass(1);
             check.is("road: there, " + unit, 1, y.ofUnit(unit, 9));
@@ -166,11 +143,11 @@ public final class SectorsTest {
     }
 
     private static void storesAndBakeries() {
-        ThirteenthDay x = camp();
-        send(x, 1, 5, 0);
-        send(x, 4, 2, 0);
-        send(x, 4, 1, 1);
-        passTo(x, 143);
+        ThirteenthDay x = Worlds.camp();
+        Worlds.send(x, 1, 5, 0);
+        Worlds.send(x, 4, 2, 0);
+        Worlds.send(x, 4, 1, 1);
+        Worlds.passTo(x, 143);
         check.is("store: eight LOADS are there", 7, x.ofSector(0, 2));
         check.is("store: WEIGHT without bakeries", 20, x.ofSector(0, 3));
         check.is("store: ahead of the DAY", 20, x.ofSector(0, 7));
@@ -182,16 +159,16 @@ public final class SectorsTest {
     }
 
     private static void hungrySectors() {
-        ThirteenthDay x = camp();
-        send(x, 1, 8, 0);
-        send(x, 3, 1, 0);
+        ThirteenthDay x = Worlds.camp();
+        Worlds.send(x, 1, 8, 0);
+        Worlds.send(x, 3, 1, 0);
         x.foe(0, 0, 3, 20);
         x.foe(0, 0, 4, 16);
-        passTo(x, 288);
+        Worlds.passTo(x, 288);
         check.is("hungry: 20 less 9 less 9", 2, x.ofSector(0, 7));
         check.is("hungry: not yet", 0, x.ofSector(0, 8));
         check.is("hungry: GROUND against nobody", 2, x.ofSector(0, 6));
-        passTo(x, 432);
+        Worlds.passTo(x, 432);
         check.is("hungry: STORE has too little", 0, x.ofSector(0, 7));
         check.is("hungry: now", 1, x.ofSector(0, 8));
         check.is("hungry: WEIGHT stays", 38, x.ofSector(0, 3));
@@ -199,16 +176,16 @@ public final class SectorsTest {
         check.is("hungry: FOE loses 19 / 8", 18, x.ofSector(0, 4));
         check.is("hungry: WOUNDED 20 / 8", 2, x.ofSector(0, 9));
         x.supply(0, 432);
-        passTo(x, 576);
+        Worlds.passTo(x, 576);
         check.is("hungry: no more", 0, x.ofSector(0, 8));
         check.is("hungry: STORE", 15, x.ofSector(0, 7));
         check.is("hungry: all of it against 34", 2, x.ofSector(0, 6));
         check.is("hungry: FOE loses 38 / 8", 30, x.ofSector(0, 4));
         check.is("hungry: WOUNDED, 2 went home with the SUPPLY", 4, x.ofSector(0, 9));
         check.is("hungry: taken home", 2, x.ofSector(0, 10));
-        ThirteenthDay y = camp();
-        send(y, 1, 5, 0);
-        passTo(y, 576);
+        ThirteenthDay y = Worlds.camp();
+        Worlds.send(y, 1, 5, 0);
+        Worlds.passTo(y, 576);
         check.is("hungry: just enough", 0, y.ofSector(0, 7));
         check.is("hungry: not with just enough", 0, y.ofSector(0, 8));
         y.pass(144);
@@ -216,7 +193,7 @@ public final class SectorsTest {
     }
 
     private static void fullStores() {
-        ThirteenthDay x = camp();
+        ThirteenthDay x = Worlds.camp();
         for (int k = 0; k < 48; k++) {
             x.supply(0, x.many(0));
             if (k % 3 == 2) {
@@ -225,20 +202,20 @@ public final class SectorsTest {
         }
         check.is("full: 41 SUPPLIES are 984 more", 999, x.ofSector(0, 7));
         check.is("full: trains", 48, x.many(5));
-        send(x, 4, 1, 0);
-        send(x, 1, 1, 0);
-        passTo(x, 144);
+        Worlds.send(x, 4, 1, 0);
+        Worlds.send(x, 1, 1, 0);
+        Worlds.passTo(x, 144);
         check.is("full: 3 more are 999, then one eats", 998, x.ofSector(0, 7));
     }
 
     private static void whatTheFoeBrings() {
-        ThirteenthDay x = camp();
+        ThirteenthDay x = Worlds.camp();
         check.is("foe: how many of it", 1, x.foe(0, 0, 1, 10));
         check.is("foe: two to one SECTOR", 2, x.foe(0, 0, 1, 5));
         check.is("foe: another SECTOR", 3, x.foe(0, 1, 2, 60));
         check.is("foe: another PLAN", 1, x.foe(2, 0, 2, 7));
         check.is("foe: all that are told", 4, x.many(12));
-        passTo(x, 143);
+        Worlds.passTo(x, 143);
         check.is("foe: ahead of its DAY", 0, x.ofSector(0, 4));
         x.pass(1);
         check.is("foe: both", 15, x.ofSector(0, 4));
@@ -257,8 +234,8 @@ public final class SectorsTest {
     }
 
     private static void refusedFoes() {
-        ThirteenthDay x = camp();
-        passTo(x, 288);
+        ThirteenthDay x = Worlds.camp();
+        Worlds.passTo(x, 288);
         check.noPlace("foe: plan -1", x, () -> x.foe(-1, 0, 3, 1));
         check.noPlace("foe: plan 3", x, () -> x.foe(3, 0, 3, 1));
         check.noPlace("foe: sector -1", x, () -> x.foe(0, -1, 3, 1));
@@ -278,7 +255,7 @@ public final class SectorsTest {
         check.noPlace("rumour: -1", x, () -> x.rumour(-1));
         check.noPlace("rumour: 3", x, () -> x.rumour(3));
         x.real(1);
-        passTo(x, 2880);
+        Worlds.passTo(x, 2880);
         check.is("foe: on the last DAY", 20, x.many(1));
         check.is("foe: all of it came, but to a SECTOR that is LOST", 64, x.ofSector(0, 4));
         check.is("foe: SEEN but the last DAY", 64, x.ofSector(0, 5));
@@ -286,12 +263,12 @@ public final class SectorsTest {
     }
 
     private static void fights() {
-        ThirteenthDay x = camp();
-        send(x, 1, 4, 0);
+        ThirteenthDay x = Worlds.camp();
+        Worlds.send(x, 1, 4, 0);
         x.foe(0, 0, 1, 16);
         x.foe(0, 0, 2, 2);
         x.foe(0, 0, 3, 5);
-        passTo(x, 144);
+        Worlds.passTo(x, 144);
         check.is("fight: OWN is FOE", 0, x.ofSector(0, 6));
         check.is("fight: FOE loses 2", 14, x.ofSector(0, 4));
         check.is("fight: 2 WOUNDED", 2, x.ofSector(0, 9));
@@ -310,19 +287,19 @@ public final class SectorsTest {
     }
 
     private static void wounded() {
-        ThirteenthDay x = camp();
-        send(x, 0, 1, 0);
+        ThirteenthDay x = Worlds.camp();
+        Worlds.send(x, 0, 1, 0);
         x.foe(0, 0, 1, 60);
-        passTo(x, 144);
+        Worlds.passTo(x, 144);
         check.is("wounded: OWN at most", 1, x.ofSector(0, 9));
         check.is("wounded: OWN / 8 is 0", 60, x.ofSector(0, 4));
-        ThirteenthDay y = camp();
-        send(y, 3, 8, 0);
-        send(y, 3, 2, 0);
+        ThirteenthDay y = Worlds.camp();
+        Worlds.send(y, 3, 8, 0);
+        Worlds.send(y, 3, 2, 0);
         for (int k = 0; k < 3; k++) {
             y.foe(0, 0, 1, 60);
         }
-        passTo(y, 144);
+        Worlds.passTo(y, 144);
         check.is("wounded: 180 / 8", 22, y.ofSector(0, 9));
         check.is("wounded: FOE loses 60 / 8", 173, y.ofSector(0, 4));
         y.supply(1, 144);
@@ -348,13 +325,13 @@ public final class SectorsTest {
     }
 
     private static void lostSectors() {
-        ThirteenthDay x = camp();
-        send(x, 0, 1, 0);
+        ThirteenthDay x = Worlds.camp();
+        Worlds.send(x, 0, 1, 0);
         x.foe(0, 0, 1, 20);
         x.foe(0, 0, 6, 9);
         x.foe(1, 0, 1, 20);
         x.foe(1, 0, 6, 9);
-        passTo(x, 576);
+        Worlds.passTo(x, 576);
         check.is("lost: GROUND", -4, x.ofSector(0, 6));
         check.is("lost: not yet", 0, x.ofSector(0, 11));
         x.pass(144);
@@ -367,7 +344,7 @@ public final class SectorsTest {
         check.is("lost: STORE stays", 15, x.ofSector(0, 7));
         check.is("lost: HUNGRY stays", 0, x.ofSector(0, 8));
         check.is("lost: no more WOUNDED", 5, x.ofSector(0, 9));
-        passTo(x, 1152);
+        Worlds.passTo(x, 1152);
         check.is("lost: what would come is SEEN", 29, x.ofSector(0, 5));
         check.is("lost: and is POSSIBLE", 1, x.rumour(1));
         check.is("lost: the GUESS", 1, x.guess());
@@ -379,9 +356,9 @@ public final class SectorsTest {
     }
 
     private static void groundHasAnEnd() {
-        ThirteenthDay x = camp();
-        send(x, 1, 1, 0);
-        passTo(x, 720);
+        ThirteenthDay x = Worlds.camp();
+        Worlds.send(x, 1, 1, 0);
+        Worlds.passTo(x, 720);
         check.is("ground: 5 DAYS against nobody", 5, x.ofSector(0, 6));
         x.pass(144);
         check.is("ground: 5 at most", 5, x.ofSector(0, 6));
@@ -389,7 +366,7 @@ public final class SectorsTest {
     }
 
     private static void factsOfSectors() {
-        ThirteenthDay x = camp();
+        ThirteenthDay x = Worlds.camp();
         check.noPlace("ofSector: -1", x, () -> x.ofSector(-1, 0));
         check.noPlace("ofSector: 3, what wrong", x, () -> x.ofSector(3, 13));
         check.noWorth("ofSector: what -1", x, () -> x.ofSector(0, -1));
@@ -397,9 +374,9 @@ public final class SectorsTest {
         int[] weights = {1, 4, 3, 6, 0};
         int sum = 0;
         for (int kind = 0; kind < 5; kind++) {
-            send(x, kind, 1, 1);
+            Worlds.send(x, kind, 1, 1);
         }
-        passTo(x, 100);
+        Worlds.passTo(x, 100);
         for (int kind = 0; kind < 5; kind++) {
             sum += weights[kind];
         }
@@ -439,7 +416,7 @@ public final class SectorsTest {
         check.is("forecast: but by DAY 2", 8, x.forecast(0, 2));
         x.pass(60);
         check.is("forecast: of LOADS that are there, on any DAY", 8, x.forecast(0, 0));
-        ThirteenthDay y = camp();
+        ThirteenthDay y = Worlds.camp();
         y.unit(3, 1, 0, 0);
         y.plan(0, 100);
         y.order(1);
@@ -459,7 +436,7 @@ public final class SectorsTest {
     }
 
     private static void plansOfTheFoe() {
-        ThirteenthDay x = camp();
+        ThirteenthDay x = Worlds.camp();
         check.is("real: at first 0", 0, x.real(1));
         check.is("real: then 1", 1, x.real(1));
         check.is("real: again", 1, x.real(0));
@@ -469,7 +446,7 @@ public final class SectorsTest {
     }
 
     private static void guesses() {
-        ThirteenthDay x = camp();
+        ThirteenthDay x = Worlds.camp();
         check.is("guess: the smallest one", 0, x.guess());
         x.rumour(2);
         check.is("guess: most RUMOURS", 2, x.guess());
@@ -480,30 +457,30 @@ public final class SectorsTest {
         x.foe(1, 0, 1, 6);
         x.foe(2, 1, 1, 10);
         x.foe(1, 2, 3, 10);
-        passTo(x, 431);
+        Worlds.passTo(x, 431);
         check.is("guess: nothing SEEN", 1, x.guess());
         x.rumour(2);
         check.is("guess: most RUMOURS, nothing SEEN", 2, x.guess());
         x.pass(1);
         check.is("guess: 2 is not POSSIBLE", 1, x.guess());
-        passTo(x, 719);
+        Worlds.passTo(x, 719);
         check.is("guess: DAY 3 is not SEEN", 1, x.guess());
         x.pass(1);
         check.is("guess: DAY 3 is SEEN, nobody came", 0, x.guess());
         x.real(2);
         x.foe(2, 0, 6, 1);
-        passTo(x, 1152);
+        Worlds.passTo(x, 1152);
         check.is("guess: none is POSSIBLE", -1, x.guess());
         check.is("balance: NONE has nothing", 0, x.balance(0, 21));
     }
 
     private static void balances() {
-        ThirteenthDay x = camp();
+        ThirteenthDay x = Worlds.camp();
         check.noPlace("balance: sector -1", x, () -> x.balance(-1, 0));
         check.noPlace("balance: sector 3, day wrong", x, () -> x.balance(3, 22));
         check.noWorth("balance: day -1", x, () -> x.balance(0, -1));
         check.noWorth("balance: day 22", x, () -> x.balance(0, 22));
-        send(x, 1, 2, 0);
+        Worlds.send(x, 1, 2, 0);
         x.foe(0, 0, 2, 10);
         x.foe(0, 0, 4, 3);
         x.foe(0, 1, 4, 30);

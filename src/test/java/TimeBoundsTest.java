@@ -273,52 +273,7 @@ public final class TimeBoundsTest {
         check.is("tell: on BLOCKS and DONE", true, isSeen[1] && isSeen[3]);
     }
 
-    /** d * 31 + v, which wraps around as a 64-bit integer: here d is told without any bound. */
-    private static BigInteger unbounded(ThirteenthDay x) {
-        BigInteger d = BigInteger.valueOf(58259);
-        for (int k = 0; k <= 12; k++) {
-            d = next(d, x.many(k));
-        }
-        for (int station = 0; station < x.many(2); station++) {
-            for (int k = 0; k <= 5; k++) {
-                d = next(d, x.ofStation(station, k));
-            }
-        }
-        for (int line = 0; line < x.many(3); line++) {
-            for (int k = 0; k <= 6; k++) {
-                d = next(d, x.ofLine(line, k));
-            }
-        }
-        for (int unit = 0; unit < x.many(4); unit++) {
-            for (int k = 0; k <= 12; k++) {
-                d = next(d, x.ofUnit(unit, k));
-            }
-            for (int load = 0; load < x.ofUnit(unit, 1); load++) {
-                for (int k = 0; k <= 2; k++) {
-                    d = next(d, x.path(unit, load, k));
-                }
-            }
-        }
-        for (int train = 0; train < x.many(5); train++) {
-            for (int k = 0; k <= 9; k++) {
-                d = next(d, x.ofTrain(train, k));
-            }
-            d = next(d, x.waits(train));
-        }
-        for (int sector = 0; sector < 3; sector++) {
-            for (int k = 0; k <= 12; k++) {
-                d = next(d, x.ofSector(sector, k));
-            }
-            d = next(d, x.forecast(sector, 13));
-        }
-        d = next(d, x.guess());
-        return next(d, x.isSound() ? 1 : 0);
-    }
-
-    private static BigInteger next(BigInteger d, int v) {
-        return d.multiply(BigInteger.valueOf(31)).add(BigInteger.valueOf(v));
-    }
-
+    /** d becomes d * 31 + v, which wraps around as a 64-bit integer. */
     private static void checksumsWrapAround() {
         int negative = 0;
         int positive = 0;
@@ -328,7 +283,7 @@ public final class TimeBoundsTest {
                 Worlds.busy(x);
                 x.pass(7 * k);
             }
-            BigInteger due = unbounded(x);
+            BigInteger due = Checksum.of(x);
             check.is("digest: wrapped around", due.longValue(), x.digest());
             check.is("digest: it has wrapped around", true, due.bitLength() > 64);
             negative += x.digest() < 0 ? 1 : 0;
@@ -346,7 +301,7 @@ public final class TimeBoundsTest {
             check.is("digest: by DAY 12", 0, x.forecast(sector, 12));
             check.is("digest: by DAY 13", 4, x.forecast(sector, 13));
             check.is("digest: by DAY 14", 8, x.forecast(sector, 14));
-            check.is("digest: of DAY 13", unbounded(x).longValue(), x.digest());
+            check.is("digest: of DAY 13", Checksum.of(x).longValue(), x.digest());
         }
     }
 

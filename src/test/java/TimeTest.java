@@ -165,53 +165,11 @@ public final class TimeTest {
         check.noPlace("tell: 11", x, () -> x.tell(11));
     }
 
-    /** The sum of promise 39 made from the calls that it names. */
-    private static long sumOf(ThirteenthDay x) {
-        long d = 58259;
-        for (int k = 0; k <= 12; k++) {
-            d = d * 31 + x.many(k);
-        }
-        for (int station = 0; station < x.many(2); station++) {
-            for (int k = 0; k <= 5; k++) {
-                d = d * 31 + x.ofStation(station, k);
-            }
-        }
-        for (int line = 0; line < x.many(3); line++) {
-            for (int k = 0; k <= 6; k++) {
-                d = d * 31 + x.ofLine(line, k);
-            }
-        }
-        for (int unit = 0; unit < x.many(4); unit++) {
-            for (int k = 0; k <= 12; k++) {
-                d = d * 31 + x.ofUnit(unit, k);
-            }
-            for (int load = 0; load < x.ofUnit(unit, 1); load++) {
-                for (int k = 0; k <= 2; k++) {
-                    d = d * 31 + x.path(unit, load, k);
-                }
-            }
-        }
-        for (int train = 0; train < x.many(5); train++) {
-            for (int k = 0; k <= 9; k++) {
-                d = d * 31 + x.ofTrain(train, k);
-            }
-            d = d * 31 + x.waits(train);
-        }
-        for (int sector = 0; sector < 3; sector++) {
-            for (int k = 0; k <= 12; k++) {
-                d = d * 31 + x.ofSector(sector, k);
-            }
-            d = d * 31 + x.forecast(sector, 13);
-        }
-        d = d * 31 + x.guess();
-        return d * 31 + (x.isSound() ? 1 : 0);
-    }
-
     private static void checksums() {
         ThirteenthDay x = new ThirteenthDay();
-        check.is("digest: of a new object", sumOf(x), x.digest());
+        check.is("digest: of a new object", Checksum.of(x).longValue(), x.digest());
         x.land(2, 1);
-        check.is("digest: of a land", sumOf(x), x.digest());
+        check.is("digest: of a land", Checksum.of(x).longValue(), x.digest());
         x.railhead(0, 5, 30);
         x.railhead(1, 3, 12);
         x.unit(1, 3, 0, 0);
@@ -223,7 +181,7 @@ public final class TimeTest {
         x.order(3);
         for (int k = 0; k < 12; k++) {
             x.pass(17);
-            check.is("digest: as time goes by, " + k, sumOf(x), x.digest());
+            check.is("digest: as time goes by, " + k, Checksum.of(x).longValue(), x.digest());
         }
         check.is("digest: something happened", 5, x.many(6));
     }

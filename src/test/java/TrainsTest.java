@@ -26,13 +26,7 @@ public final class TrainsTest {
 
     /** A chain of STATIONS without water, 9 ENGINES each; SECTOR 0 has the last one, SECTOR 1 the first one. */
     private static ThirteenthDay chain(int stations, int ramps, int sidings, int blocks, boolean isDouble) {
-        ThirteenthDay x = new ThirteenthDay();
-        for (int k = 0; k < stations; k++) {
-            x.station(ramps, sidings, 9, false);
-        }
-        for (int k = 1; k < stations; k++) {
-            x.line(k - 1, k, blocks, isDouble, 0);
-        }
+        ThirteenthDay x = Worlds.chain(stations, ramps, sidings, blocks, isDouble, 0);
         x.railhead(0, stations - 1, 6);
         x.railhead(1, 0, 6);
         return x;

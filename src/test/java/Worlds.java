@@ -42,42 +42,18 @@ final class Worlds {
      * TICK 40 of a war of 8 STATIONS, 10 LINES (7 is CLOSED) and 5 UNITS: 0 and 2 roll, 1 is STOPPED, 3 is at PEACE
      * and has PATHS, 4 has no RAILHEAD. TRAINS stand (6), are on a BLOCK (5), unloaded (4) and DONE (0).
      */
+    static final String[] BUSY = {"land 2 1", "station 1 1 3 1", "station 2 0 2 0", "line 5 6 3 0 2", "line 6 0 5 1 0",
+        "railhead 0 4 12", "railhead 1 5 6", "unit 1 3 0 0", "unit 3 2 1 0", "unit 2 8 6 1", "unit 4 1 2 1",
+        "unit 0 2 0 2", "plan 0 0", "plan 1 5", "plan 2 8", "plan 3 60", "supply 1 1", "supply 0 39", "supply 0 70",
+        "order 23", "foe 0 0 1 9", "foe 1 1 2 60", "foe 2 2 3 1", "aim 1 0 1", "aim 2 2 0", "rumour 1", "pass 8",
+        "stop 1", "pass 24", "bridge 7", "box 4 3", "box 5 20", "foul 0 40", "key", "pass 8"};
+
     static int busy(ThirteenthDay x) {
-        x.land(2, 1);
-        x.station(1, 1, 3, true);
-        x.station(2, 0, 2, false);
-        x.line(5, 6, 3, false, 2);
-        x.line(6, 0, 5, true, 0);
-        x.railhead(0, 4, 12);
-        x.railhead(1, 5, 6);
-        x.unit(1, 3, 0, 0);
-        x.unit(3, 2, 1, 0);
-        x.unit(2, 8, 6, 1);
-        x.unit(4, 1, 2, 1);
-        x.unit(0, 2, 0, 2);
-        x.plan(0, 0);
-        x.plan(1, 5);
-        x.plan(2, 8);
-        x.plan(3, 60);
-        x.supply(1, 1);
-        x.supply(0, 39);
-        x.supply(0, 70);
-        x.order(1 + 2 + 4 + 16);
-        x.foe(0, 0, 1, 9);
-        x.foe(1, 1, 2, 60);
-        x.foe(2, 2, 3, 1);
-        x.aim(1, 0, 1);
-        x.aim(2, 2, 0);
-        x.rumour(1);
-        x.pass(8);
-        x.stop(1);
-        x.pass(24);
-        x.bridge(7);
-        x.box(4, 3);
-        x.box(5, 20);
-        x.foul(0, 40);
-        x.key();
-        x.pass(8);
+        for (String call : BUSY) {
+            if (Calls.answer(x, Calls.name(call), Calls.arguments(call)).startsWith("throws.")) {
+                throw new IllegalStateException("the war can not begin: " + call);
+            }
+        }
         return x.many(0);
     }
 }
