@@ -3,7 +3,7 @@ import java.util.concurrent.Callable;
 
 /** Long runs of calls, ordinary ones and wrong ones, asked of the class and of SecondOpinion. */
 public final class RandomRunsTest {
-    private static final int RUNS = 400;
+    private static final int RUNS = 1000;
     /** As many as an object is used for. */
     private static final int CALLS = 512;
     private static int wrong = 0;
