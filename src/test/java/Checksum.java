@@ -1,6 +1,9 @@
 import java.math.BigInteger;
 
-/** The sum of promise 39, made from the calls that it names, without any bound: longValue() wraps it around. */
+/**
+ * The sum of promise 39, made from the calls that it names, without any bound: longValue() wraps it around. It takes
+ * some hundreds of the 512 calls for which an object is used.
+ */
 final class Checksum {
     private BigInteger d = BigInteger.valueOf(58259);
 
@@ -31,12 +34,14 @@ final class Checksum {
     }
 
     private void land(ThirteenthDay x) {
-        for (int station = 0; station < x.many(2); station++) {
+        int stations = x.many(2);
+        for (int station = 0; station < stations; station++) {
             for (int k = 0; k <= 5; k++) {
                 then(x.ofStation(station, k));
             }
         }
-        for (int line = 0; line < x.many(3); line++) {
+        int lines = x.many(3);
+        for (int line = 0; line < lines; line++) {
             for (int k = 0; k <= 6; k++) {
                 then(x.ofLine(line, k));
             }
@@ -44,11 +49,13 @@ final class Checksum {
     }
 
     private void units(ThirteenthDay x) {
-        for (int unit = 0; unit < x.many(4); unit++) {
+        int units = x.many(4);
+        for (int unit = 0; unit < units; unit++) {
             for (int k = 0; k <= 12; k++) {
                 then(x.ofUnit(unit, k));
             }
-            for (int load = 0; load < x.ofUnit(unit, 1); load++) {
+            int loads = x.ofUnit(unit, 1);
+            for (int load = 0; load < loads; load++) {
                 for (int k = 0; k <= 2; k++) {
                     then(x.path(unit, load, k));
                 }
@@ -57,7 +64,8 @@ final class Checksum {
     }
 
     private void trains(ThirteenthDay x) {
-        for (int train = 0; train < x.many(5); train++) {
+        int trains = x.many(5);
+        for (int train = 0; train < trains; train++) {
             for (int k = 0; k <= 9; k++) {
                 then(x.ofTrain(train, k));
             }

@@ -7,7 +7,9 @@ public final class QuestionsTest {
         ofUnitsAndPaths();
         ofWhatCouldBe();
         ofTrains();
-        ofSectorsAndTheWhole();
+        ofSectors();
+        ofDaysToCome();
+        ofTheWhole();
         check.end();
     }
 
@@ -90,7 +92,7 @@ public final class QuestionsTest {
         t.liveOn();
     }
 
-    private static void ofSectorsAndTheWhole() {
+    private static void ofSectors() {
         Twin t = war("sectors");
         for (int k = 0; k < 3; k++) {
             int sector = k;
@@ -98,12 +100,25 @@ public final class QuestionsTest {
                 int what = w;
                 t.asks("ofSector", x -> x.ofSector(sector, what));
             }
+        }
+        t.liveOn();
+    }
+
+    private static void ofDaysToCome() {
+        Twin t = war("days to come");
+        for (int k = 0; k < 3; k++) {
+            int sector = k;
             for (int d = 0; d <= 21; d++) {
                 int day = d;
                 t.asks("forecast", x -> x.forecast(sector, day));
                 t.asks("balance", x -> x.balance(sector, day));
             }
         }
+        t.liveOn();
+    }
+
+    private static void ofTheWhole() {
+        Twin t = war("the whole");
         for (int w = 0; w <= 12; w++) {
             int what = w;
             t.asks("many", x -> x.many(what));

@@ -259,7 +259,8 @@ public final class TimeBoundsTest {
         boolean[] isSeen = new boolean[4];
         for (int k = 0; k < 14; k++) {
             x.pass(29);
-            for (int train = 0; train < x.many(5) && k > 9; train++) {
+            int trains = k < 10 ? 0 : x.many(5);
+            for (int train = k % 3; train < trains; train += 3) {
                 int how = x.ofTrain(train, 2);
                 int where = x.ofTrain(train, 3);
                 isSeen[how] = true;
@@ -286,8 +287,8 @@ public final class TimeBoundsTest {
             BigInteger due = Checksum.of(x);
             check.is("digest: wrapped around", due.longValue(), x.digest());
             check.is("digest: it has wrapped around", true, due.bitLength() > 64);
-            negative += x.digest() < 0 ? 1 : 0;
-            positive += x.digest() > 0 ? 1 : 0;
+            negative += due.longValue() < 0 ? 1 : 0;
+            positive += due.longValue() > 0 ? 1 : 0;
         }
         check.is("digest: below and above 0", true, negative > 0 && positive > 0);
     }
@@ -309,8 +310,8 @@ public final class TimeBoundsTest {
         ThirteenthDay x = new ThirteenthDay();
         Worlds.busy(x);
         for (int k = 0; k < 200; k++) {
-            x.pass(1);
-            check.is("sound: at " + x.many(0), true, x.isSound());
+            int tick = x.pass(1);
+            check.is("sound: at " + tick, true, x.isSound());
         }
     }
 }

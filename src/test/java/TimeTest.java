@@ -166,10 +166,25 @@ public final class TimeTest {
     }
 
     private static void checksums() {
+        ThirteenthDay none = new ThirteenthDay();
+        check.is("digest: of a new object", Checksum.of(none).longValue(), none.digest());
+        none.land(2, 1);
+        check.is("digest: of a land", Checksum.of(none).longValue(), none.digest());
+        int done = 0;
+        for (int k = 0; k <= 12; k++) {
+            ThirteenthDay x = smallWar();
+            if (k > 0) {
+                Worlds.passTo(x, 17 * k);
+            }
+            check.is("digest: at TICK " + 17 * k, Checksum.of(x).longValue(), x.digest());
+            done = x.many(6);
+        }
+        check.is("digest: something happened", 5, done);
+    }
+
+    private static ThirteenthDay smallWar() {
         ThirteenthDay x = new ThirteenthDay();
-        check.is("digest: of a new object", Checksum.of(x).longValue(), x.digest());
         x.land(2, 1);
-        check.is("digest: of a land", Checksum.of(x).longValue(), x.digest());
         x.railhead(0, 5, 30);
         x.railhead(1, 3, 12);
         x.unit(1, 3, 0, 0);
@@ -179,11 +194,7 @@ public final class TimeTest {
         x.supply(1, 9);
         x.foe(0, 0, 1, 9);
         x.order(3);
-        for (int k = 0; k < 12; k++) {
-            x.pass(17);
-            check.is("digest: as time goes by, " + k, Checksum.of(x).longValue(), x.digest());
-        }
-        check.is("digest: something happened", 5, x.many(6));
+        return x;
     }
 
     private static void questionsChangeNothing() {
