@@ -10,6 +10,8 @@ public final class PathBoundsTest {
         aPathWithoutLines();
         aPaceApart();
         theOtherDirectionOfASingleLine();
+        onDifferentLines();
+        theNinthLineOfAWay();
         theyPassEachOtherAtAStation();
         asManyAsThereAreRamps();
         rampsAreSharedByAll();
@@ -18,6 +20,7 @@ public final class PathBoundsTest {
         theFirstFouledLineOfTheWay();
         whatIsFoundAtTheLastTicks();
         nothingIsKept();
+        whatIsDroppedIsNotInTheWay();
         whenAUnitMayBePlanned();
         couldIsPlanBehindDrop();
         pathsAreKeptTillDone();
@@ -114,6 +117,55 @@ public final class PathBoundsTest {
                 check.is("other: behind it", 100 + ticks, x.could(1, 100 + ticks));
             }
         }
+    }
+
+    /** Two that are at one TICK on different LINES, or at one STATION between these, do not FOUL. */
+    private static void onDifferentLines() {
+        ThirteenthDay x = new ThirteenthDay();
+        for (int k = 0; k < 4; k++) {
+            x.station(3, 5, 9, false);
+        }
+        for (int k = 0; k < 3; k++) {
+            x.line(k, 3, 2, false, 0);
+        }
+        for (int sector = 0; sector < 3; sector++) {
+            x.railhead(sector, (sector + 1) % 3, 6);
+            x.unit(0, 1, sector, sector);
+        }
+        check.is("different: over 0 and 1", 100, x.plan(0, 100));
+        check.is("different: over 1 and 2, each 5 TICKS ahead of or behind the other one", 100, x.plan(1, 100));
+        check.is("different: over 2 and 0", 100, x.plan(2, 100));
+        for (int line = 0; line < 3; line++) {
+            for (int tick = 99; tick <= 110; tick++) {
+                int due = tick >= 100 && tick <= 103 || tick >= 105 && tick <= 108 ? 1 : 0;
+                check.is("different: LINE " + line + " at " + tick, due, x.planned(line, tick));
+            }
+        }
+    }
+
+    /** The longest way there is has 9 LINES: it may FOUL on its last one alone. */
+    private static void theNinthLineOfAWay() {
+        ThirteenthDay x = Worlds.chain(10, 3, 5, 1, false, 0);
+        x.railhead(0, 9, 6);
+        x.railhead(1, 8, 6);
+        x.unit(0, 1, 8, 0);
+        x.unit(0, 1, 0, 0);
+        x.unit(0, 1, 9, 1);
+        check.is("ninth: LINE 8 alone", 124, x.plan(0, 124));
+        check.is("ninth: LINE 8 at 122", 98, x.could(1, 98));
+        check.is("ninth: LINE 8 at 123 to 125 FOULS", 102, x.could(1, 99));
+        check.is("ninth: LINE 8 at 126", 102, x.plan(1, 102));
+        check.is("ninth: ARRIVES", 128, x.path(1, 0, 1));
+        check.is("ninth: LINES", 9, x.path(1, 0, 2));
+        for (int line = 0; line < 9; line++) {
+            for (int tick = 100; tick < 130; tick++) {
+                int enters = 102 + 3 * line;
+                int due = tick == enters || tick == enters + 1 || line == 8 && (tick == 124 || tick == 125) ? 1 : 0;
+                check.is("ninth: LINE " + line + " at " + tick, due, x.planned(line, tick));
+            }
+        }
+        check.is("ninth: the other direction, ahead", 122, x.could(2, 122));
+        check.is("ninth: the other direction, behind both", 128, x.could(2, 123));
     }
 
     /** Over 0 1 2 on TICKS 100 to 108 and back: on LINE 1 from s, on LINE 0 from s + 5. */
@@ -315,6 +367,32 @@ public final class PathBoundsTest {
         t.is("could, without a way", NO_WAY, x -> x.could(5, 2880));
         t.is("PATHS still", 32, x -> x.many(7));
         t.liveOn();
+    }
+
+    /** A PATH that is dropped has no BLOCK and no RAMP any more, from TICK 0 on. */
+    private static void whatIsDroppedIsNotInTheWay() {
+        ThirteenthDay x = yard(1);
+        x.unit(3, 8, 0, 0);
+        x.unit(3, 8, 0, 0);
+        check.is("dropped: START of the last", 63, x.plan(0, 0));
+        check.is("dropped: behind those that are kept", 72 + 63, x.could(1, 0));
+        check.is("dropped: PATHS", 8, x.drop(0));
+        check.is("dropped: in their place", 63, x.could(1, 0));
+        check.is("dropped: kept in their place", 63, x.plan(1, 0));
+        check.is("dropped: now these are ahead", 72 + 63, x.plan(0, 0));
+        check.is("dropped: it FOULS none", true, x.isSound());
+        ThirteenthDay y = Worlds.chain(2, 3, 5, 5, false, 2);
+        y.railhead(0, 1, 6);
+        y.railhead(1, 0, 6);
+        y.unit(0, 1, 0, 0);
+        y.unit(0, 1, 1, 1);
+        check.is("dropped: START", 0, y.plan(0, 0));
+        check.is("dropped: behind it", 20, y.could(1, 0));
+        check.is("dropped: one", 1, y.drop(0));
+        check.is("dropped: none on the LINE", 0, y.planned(0, 0));
+        check.is("dropped: in its place", 0, y.plan(1, 0));
+        check.is("dropped: the LINE is sound", true, y.isSound());
+        check.is("dropped: now this is ahead", 20, y.plan(0, 0));
     }
 
     /** Not with a PATH of a LOAD that has not gone, STOPPED, all gone, or no RAILHEAD; with any other state. */

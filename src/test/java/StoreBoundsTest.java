@@ -8,6 +8,8 @@ public final class StoreBoundsTest {
         inTheOrderInWhichTrainsMoved();
         eachSectorHasItsRoad();
         marchesOf6And144();
+        asManyAsThereCanBe();
+        aLaterLoadComesFirst();
         storesUpTo999();
         aFullStoreAndABakery();
         justEnoughAndOneTooLittle();
@@ -16,6 +18,7 @@ public final class StoreBoundsTest {
         sixSupplies();
         theSixthGoesFirst();
         sixAtOneTick();
+        sentBehindOneThatIsDone();
         suppliesToEachSector();
         supplyFromTickTo2880();
         forecastOfWhatMarches();
@@ -111,6 +114,69 @@ public final class StoreBoundsTest {
             check.is("march: there", 1, x.ofUnit(0, 9));
             check.is("march: at the SECTOR", 1, x.ofSector(0, 2));
         }
+    }
+
+    /** 6 UNITS of 8 LOADS: one is READY each 6 TICKS, unloaded 3 and at its SECTOR 9 TICKS later. */
+    private static void asManyAsThereCanBe() {
+        ThirteenthDay x = Worlds.camp();
+        x.railhead(2, 0, 6);
+        for (int unit = 0; unit < 6; unit++) {
+            x.unit(1, 8, 0, unit % 3);
+            x.plan(unit, 0);
+        }
+        check.is("all: ORDERED", 6, x.order(63));
+        int[][] due = {{144, 8, 8, 6}, {288, 16, 16, 14}, {296, 16, 16, 15}, {297, 16, 16, 16}};
+        int[][] stores = {{12, 12, 14}, {0, 0, 0}, {0, 0, 0}, {0, 0, 0}};
+        for (int k = 0; k < due.length; k++) {
+            Worlds.passTo(x, due[k][0]);
+            for (int sector = 0; sector < 3; sector++) {
+                check.is("all: LOADS at " + due[k][0], due[k][sector + 1], x.ofSector(sector, 2));
+                check.is("all: their WEIGHT", 4 * due[k][sector + 1], x.ofSector(sector, 3));
+                check.is("all: STORE", stores[k][sector], x.ofSector(sector, 7));
+                check.is("all: HUNGRY", k > 0 && sector < 2 ? 1 : 0, x.ofSector(sector, 8));
+                check.is("all: forecast of DAY 3", 64, x.forecast(sector, 3));
+            }
+        }
+        for (int unit = 0; unit < 6; unit++) {
+            for (int what = 6; what <= 9; what++) {
+                check.is("all: ofUnit " + what, 8, x.ofUnit(unit, what));
+            }
+        }
+        check.is("all: unloaded", 48, x.many(9));
+        check.is("all: TRAINS", 48, x.many(6));
+        x.foe(0, 2, 3, 60);
+        Worlds.passTo(x, 432);
+        check.is("all: OWN is 32 as they are HUNGRY", 56, x.ofSector(2, 4));
+        check.is("all: WOUNDED", 7, x.ofSector(2, 9));
+    }
+
+    /** LOAD 1 is unloaded and at its SECTOR ahead of LOAD 0, whose TRAIN has a hot box. */
+    private static void aLaterLoadComesFirst() {
+        ThirteenthDay x = Worlds.chain(2, 3, 5, 1, true, 0);
+        x.railhead(0, 1, 6);
+        x.unit(1, 2, 0, 0);
+        check.is("later: START 20 and 22", 22, x.plan(0, 20));
+        x.order(1);
+        x.pass(22);
+        check.is("later: the first one stands", 0, x.box(0, 20));
+        x.pass(6);
+        check.is("later: DONE", "1 foot 0/1 done", x.tell(1));
+        check.is("later: one is unloaded", 1, x.ofUnit(0, 8));
+        check.is("later: its PATH is not kept", NONE, x.path(0, 1, 0));
+        check.is("later: that of the first one is", 20, x.path(0, 0, 0));
+        check.is("later: the last PATH that is kept ARRIVES", 22, x.ofUnit(0, 10));
+        check.is("later: forecast, with the first one LATE", 8, x.forecast(0, 1));
+        x.pass(5);
+        check.is("later: none is there", 0, x.ofUnit(0, 9));
+        x.pass(1);
+        check.is("later: one is there", 1, x.ofUnit(0, 9));
+        check.is("later: one is at the SECTOR", 1, x.ofSector(0, 2));
+        check.is("later: its WEIGHT", 4, x.ofSector(0, 3));
+        x.pass(17);
+        check.is("later: still one", 1, x.ofSector(0, 2));
+        check.is("later: the first one is unloaded", 2, x.ofUnit(0, 8));
+        x.pass(1);
+        check.is("later: both", 2, x.ofSector(0, 2));
     }
 
     private static void sendSupplies(ThirteenthDay x, int many) {
@@ -283,6 +349,29 @@ public final class StoreBoundsTest {
                 check.is("one TICK: in the order in which they were sent", sectors[train], x.ofTrain(train, 1));
             }
         }
+    }
+
+    /** In the order in which they were sent, though the last one is sent as the first one is DONE already. */
+    private static void sentBehindOneThatIsDone() {
+        ThirteenthDay x = new ThirteenthDay();
+        x.station(3, 5, 1, false);
+        x.station(3, 5, 0, false);
+        x.line(0, 1, 1, true, 0);
+        x.railhead(0, 0, 6);
+        x.railhead(1, 1, 6);
+        x.railhead(2, 0, 6);
+        check.is("behind: START of the first", 5, x.supply(0, 5));
+        check.is("behind: START of the second", 50, x.supply(1, 50));
+        x.pass(20);
+        check.is("behind: the first one is DONE", 1, x.many(6));
+        check.is("behind: START of the third", 50, x.supply(2, 50));
+        x.pass(30);
+        check.is("behind: there is one ENGINE", 2, x.many(5));
+        check.is("behind: the second one has it", "1 supply 1 on 0.0", x.tell(1));
+        x.pass(9);
+        check.is("behind: DONE at 56, 4 TICKS from HOME", 2, x.many(5));
+        x.pass(1);
+        check.is("behind: with its ENGINE the third one goes", "2 supply 2 unloads at 0", x.tell(2));
     }
 
     private static void suppliesToEachSector() {

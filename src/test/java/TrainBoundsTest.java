@@ -20,6 +20,7 @@ public final class TrainBoundsTest {
         fouledToTheLastTick();
         aStationThatIsFouledAndFull();
         leftOfOneOrLess();
+        fromFarToNear();
         boxesAtTheirBounds();
         dryAtTwelve();
         waterAtFour();
@@ -403,35 +404,48 @@ public final class TrainBoundsTest {
         }
     }
 
-    /** Of several: 5 ahead of 3; a BLOCK that is not the last one does not look at the STATION. */
-    private static void aStationThatIsFouledAndFull() {
-        ThirteenthDay x = Worlds.chain(2, 1, 0, 2, true, 0);
+    /** STATION 1 has room for one TRAIN; the LINE is told from NEAR to FAR, or from FAR to NEAR. */
+    private static ThirteenthDay roomForOne(int blocks, boolean isMirror) {
+        ThirteenthDay x = new ThirteenthDay();
+        x.station(1, 0, 9, false);
+        x.station(1, 0, 9, false);
+        x.line(isMirror ? 1 : 0, isMirror ? 0 : 1, blocks, true, 0);
         x.railhead(0, 1, 6);
         Worlds.send(x, 3, 2, 0);
-        x.pass(17);
-        check.is("both: one is unloaded", 1, x.ofStation(1, 5));
-        check.is("both: the other one has not gone", 1, x.many(5));
-        x.pass(1);
-        check.is("both: on BLOCK 0", 0, x.ofTrain(1, 4));
-        x.box(1, 1);
-        x.foul(1, 9);
-        x.pass(2);
-        check.is("both: LEFT of 1 on BLOCK 0", 1, x.ofTrain(1, 5));
-        check.is("both: the next BLOCK is free", 0, x.waits(1));
-        x.pass(2);
-        check.is("both: LEFT of 1 on BLOCK 1", 1, x.ofTrain(1, 5));
-        check.is("both: FOULED", 5, x.waits(1));
-        check.is("both: FOUL", 5, x.foul(1, 0));
-        check.is("both: full alone", 3, x.waits(1));
-        x.pass(1);
-        check.is("both: neither, TRAIN 0 is DONE", 0, x.ofTrain(1, 2));
-        ThirteenthDay y = Worlds.chain(2, 1, 0, 1, true, 0);
-        y.railhead(0, 1, 6);
-        Worlds.send(y, 3, 2, 0);
-        y.pass(19);
-        check.is("both: full", 3, y.waits(1));
-        y.foul(1, 1);
-        check.is("both: FOULED ahead of full", 5, y.waits(1));
+        return x;
+    }
+
+    /** Of several: 5 ahead of 3; a BLOCK that is not the last one does not look at the STATION. */
+    private static void aStationThatIsFouledAndFull() {
+        for (int mirror = 0; mirror < 2; mirror++) {
+            ThirteenthDay x = roomForOne(2, mirror == 1);
+            x.pass(17);
+            check.is("both: one is unloaded", 1, x.ofStation(1, 5));
+            check.is("both: the other one has not gone", 1, x.many(5));
+            x.pass(1);
+            check.is("both: on the first BLOCK", mirror, x.ofTrain(1, 4));
+            x.box(1, 1);
+            x.foul(1, 9);
+            x.pass(2);
+            check.is("both: LEFT of 1 on the first BLOCK", 1, x.ofTrain(1, 5));
+            check.is("both: the next BLOCK is free", 0, x.waits(1));
+            x.pass(2);
+            check.is("both: on the last BLOCK", 1 - mirror, x.ofTrain(1, 4));
+            check.is("both: LEFT of 1 on the last BLOCK", 1, x.ofTrain(1, 5));
+            check.is("both: FOULED", 5, x.waits(1));
+            check.is("both: FOUL", 5, x.foul(1, 0));
+            check.is("both: full alone", 3, x.waits(1));
+            x.pass(1);
+            check.is("both: neither, TRAIN 0 is DONE", 0, x.ofTrain(1, 2));
+            ThirteenthDay y = roomForOne(1, mirror == 1);
+            y.pass(19);
+            check.is("both: full", 3, y.waits(1));
+            y.foul(1, 1);
+            check.is("both: FOULED ahead of full", 5, y.waits(1));
+            y.foul(1, 0);
+            y.pass(1);
+            check.is("both: it does not come into a full STATION", 1, y.ofTrain(1, 2));
+        }
     }
 
     /** On a BLOCK with LEFT of 1 or less it is asked as if it was to MOVE now; 0 with more. */
@@ -451,6 +465,52 @@ public final class TrainBoundsTest {
             x.pass(1);
         }
         check.is("left: it stands as FOUL is over", 0, x.ofTrain(0, 2));
+    }
+
+    /** Two wars, the LINES of the other one told from FAR to NEAR: only the numbers of BLOCKS differ by that. */
+    private static void fromFarToNear() {
+        for (int blocks = 1; blocks <= 3; blocks++) {
+            for (int twin = 0; twin < 2; twin++) {
+                ThirteenthDay x = crowded(blocks, twin == 1, false);
+                ThirteenthDay y = crowded(blocks, twin == 1, true);
+                boolean isFull = false;
+                boolean isFouled = false;
+                for (int tick = 1; tick <= 50; tick++) {
+                    int[] fouled = tick == 30 ? new int[] {1, 10} : tick == 45 ? new int[] {2, 4} : new int[] {0, 0};
+                    check.is("mirror: FOUL", x.foul(fouled[0], fouled[1]), y.foul(fouled[0], fouled[1]));
+                    x.pass(1);
+                    y.pass(1);
+                    int train = tick % 4;
+                    if (train >= x.many(5)) {
+                        continue;
+                    }
+                    for (int what = 2; what <= 6; what++) {
+                        int due = x.ofTrain(train, what);
+                        boolean isBlock = what == 4 && due != NONE;
+                        check.is("mirror: ofTrain " + what, isBlock ? blocks - 1 - due : due, y.ofTrain(train, what));
+                    }
+                    int waits = x.waits(train);
+                    check.is("mirror: waits", waits, y.waits(train));
+                    isFull |= waits == 3;
+                    isFouled |= waits == 5;
+                }
+                check.is("mirror: some waited", true, isFull && isFouled);
+            }
+        }
+    }
+
+    /** Guns go over 1 to 2; both have room for one TRAIN. */
+    private static ThirteenthDay crowded(int blocks, boolean isDouble, boolean isMirror) {
+        ThirteenthDay x = new ThirteenthDay();
+        x.station(1, 5, 9, false);
+        x.station(1, 0, 9, false);
+        x.station(1, 0, 9, false);
+        for (int near = 0; near < 2; near++) {
+            x.line(isMirror ? near + 1 : near, isMirror ? near : near + 1, blocks, isDouble, 0);
+        }
+        x.railhead(0, 2, 6);
+        Worlds.send(x, 3, 4, 0);
+        return x;
     }
 
     /** A HOT BOX of 1 to 72 TICKS: more LEFT on a BLOCK (of 0 too), more REST for one that stands. */

@@ -14,6 +14,7 @@ public final class UnitBoundsTest {
         railheadsAndMarches();
         railheadsThatAreBound();
         railheadOfATrainAlone();
+        railheadsOfOtherSectors();
         setsOfUnits();
         wiresByTheirLines();
         wiresWithoutAWay();
@@ -28,6 +29,7 @@ public final class UnitBoundsTest {
         orderAndStopAtOneTick();
         ticksInWhichItCouldBeStopped();
         theLastPathIsThatOfTheGreatestLoad();
+        eightPathsOfEach();
         check.end();
     }
 
@@ -173,6 +175,36 @@ public final class UnitBoundsTest {
         t.noTime("still the TRAIN", x -> x.railhead(0, 3, 10));
         t.liveOn();
         t.is("DONE long ago", 3, x -> x.railhead(0, 3, 10));
+    }
+
+    /** At each TICK of a TRAIN's way it binds its own SECTOR, and no other one. */
+    private static void railheadsOfOtherSectors() {
+        for (int sector = 0; sector < 3; sector++) {
+            ThirteenthDay x = Worlds.chain(4, 1, 0, 1, true, 0);
+            x.railhead(sector, 3, 6);
+            x.unit(0, 1, 0, sector);
+            x.plan(0, 20);
+            x.order(1);
+            x.pass(19);
+            for (int tick = 20; tick <= 34; tick++) {
+                x.pass(1);
+                boolean isDone = tick >= 33;
+                check.is("other: DONE at " + tick, isDone, x.ofTrain(0, 2) == 3);
+                for (int other = 0; other < 3; other++) {
+                    int march = 6 + tick;
+                    if (other != sector || isDone) {
+                        x.railhead(other, 3, march);
+                        check.is("other: MARCH", march, x.ofSector(other, 1));
+                    } else {
+                        int bound = other;
+                        check.noTime("other: bound at " + tick, x, () -> x.railhead(bound, 3, march));
+                    }
+                }
+                if (tick == 22) {
+                    x.box(0, 2);
+                }
+            }
+        }
     }
 
     /** A set is the sum of 2^k; those that are not at PEACE are left out. */
@@ -483,5 +515,25 @@ public final class UnitBoundsTest {
         x.plan(0, 7);
         check.is("last PATH: START 9 and 2 by the new LINE", 11, x.ofUnit(0, 10));
         check.is("last PATH: three are kept", 3, x.ofUnit(0, 11));
+    }
+
+    /** UNIT by UNIT 8 PATHS at most, each UNIT's own. */
+    private static void eightPathsOfEach() {
+        ThirteenthDay x = Worlds.camp();
+        for (int unit = 0; unit < 6; unit++) {
+            x.unit(0, 8, 0, 0);
+        }
+        for (int unit = 5; unit >= 0; unit--) {
+            check.is("eight: START of the last", 100 + 8 * unit + 7, x.plan(unit, 100 + 8 * unit));
+            for (int other = 0; other < 6; other++) {
+                check.is("eight: PATHS of " + other, other < unit ? 0 : 8, x.ofUnit(other, 11));
+                check.is("eight: the last ARRIVES", other < unit ? NONE : 107 + 8 * other, x.ofUnit(other, 10));
+            }
+            check.is("eight: of all", 8 * (6 - unit), x.many(7));
+        }
+        for (int unit = 0; unit < 6; unit++) {
+            check.is("eight: dropped", 8, x.drop(unit));
+            check.is("eight: those of the others are left", 8 * (5 - unit), x.many(7));
+        }
     }
 }
