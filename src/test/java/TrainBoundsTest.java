@@ -469,15 +469,17 @@ public final class TrainBoundsTest {
 
     /** Two wars, the LINES of the other one told from FAR to NEAR: only the numbers of BLOCKS differ by that. */
     private static void fromFarToNear() {
+        int full = 0;
+        int fouled = 0;
         for (int blocks = 1; blocks <= 3; blocks++) {
             for (int twin = 0; twin < 2; twin++) {
                 ThirteenthDay x = crowded(blocks, twin == 1, false);
                 ThirteenthDay y = crowded(blocks, twin == 1, true);
-                boolean isFull = false;
-                boolean isFouled = false;
-                for (int tick = 1; tick <= 50; tick++) {
-                    int[] fouled = tick == 30 ? new int[] {1, 10} : tick == 45 ? new int[] {2, 4} : new int[] {0, 0};
-                    check.is("mirror: FOUL", x.foul(fouled[0], fouled[1]), y.foul(fouled[0], fouled[1]));
+                for (int tick = 1; tick <= 60; tick++) {
+                    if (tick == 30 || tick == 45) {
+                        int station = tick / 15 - 1;
+                        check.is("mirror: FOUL", x.foul(station, 10), y.foul(station, 10));
+                    }
                     x.pass(1);
                     y.pass(1);
                     int train = tick % 4;
@@ -491,12 +493,12 @@ public final class TrainBoundsTest {
                     }
                     int waits = x.waits(train);
                     check.is("mirror: waits", waits, y.waits(train));
-                    isFull |= waits == 3;
-                    isFouled |= waits == 5;
+                    full += waits == 3 ? 1 : 0;
+                    fouled += waits == 5 ? 1 : 0;
                 }
-                check.is("mirror: some waited", true, isFull && isFouled);
             }
         }
+        check.is("mirror: some waited", true, full > 0 && fouled > 0);
     }
 
     /** Guns go over 1 to 2; both have room for one TRAIN. */
