@@ -6,6 +6,7 @@ public final class FoeBoundsTest {
     public static void main(String[] args) {
         eachValueOfAFoe();
         sixOfEachPlan();
+        sixOfOnePlanAlone();
         asItsDayBegins();
         byThePlanOfThatMoment();
         onTheLastDay();
@@ -21,6 +22,7 @@ public final class FoeBoundsTest {
         whatComesToALostSector();
         aLostSectorThatIsHungry();
         upToSixWounded();
+        woundedOfTheSectorForWhichItWent();
         sectorBySector();
         check.end();
     }
@@ -65,6 +67,30 @@ public final class FoeBoundsTest {
         }
         t.is("18 of all", 18, x -> x.many(12));
         t.liveOn();
+    }
+
+    /** What is told of a PLAN that is full is that PLAN's alone. */
+    private static void sixOfOnePlanAlone() {
+        for (int full = 0; full < 3; full++) {
+            for (int real = 0; real < 3; real++) {
+                ThirteenthDay x = new ThirteenthDay();
+                for (int k = 1; k <= 6; k++) {
+                    check.is("one PLAN: told", k, x.foe(full, 0, k, 10 + k));
+                }
+                x.real(real);
+                x.rumour(real);
+                int[] sums = {0, 11, 23, 36, 50, 65, 81, 81};
+                for (int day = 0; day <= 7; day++) {
+                    int due = real == full ? sums[day] : 0;
+                    int foe = real == full ? sums[Math.min(5, day)] : 0;
+                    check.is("one PLAN: balance of DAY " + day, -due, x.balance(0, day));
+                    check.is("one PLAN: FOE on DAY " + day + ", LOST on DAY 5", foe, x.ofSector(0, 4));
+                    x.pass(144);
+                }
+                check.is("one PLAN: SEEN up to DAY 6", real == full ? 81 : 0, x.ofSector(0, 5));
+                check.is("one PLAN: it is POSSIBLE", real, x.guess());
+            }
+        }
     }
 
     /** Several that COME to one SECTOR on one DAY come together; FOE is what CAME on all DAYS. */
@@ -428,6 +454,35 @@ public final class FoeBoundsTest {
             check.is("wounded: none is left", 0, x.ofSector(0, 9));
             check.is("wounded: all were taken home", wounded, x.ofSector(0, 10));
         }
+    }
+
+    /** Of the SECTOR for which it went, though its UNIT has another one by then; it MARCHES to that as well. */
+    private static void woundedOfTheSectorForWhichItWent() {
+        ThirteenthDay x = Worlds.camp();
+        for (int sector = 0; sector < 2; sector++) {
+            Worlds.send(x, 0, 8, sector);
+            x.foe(0, sector, 1, 60);
+        }
+        Worlds.passTo(x, 144);
+        Worlds.send(x, 3, 2, 0);
+        x.pass(9);
+        check.is("went: one has gone", 1, x.ofUnit(2, 7));
+        x.aim(0, 2, 1);
+        check.is("went: the other one changes", 1, x.change(0));
+        int road = x.ofSector(1, 12);
+        x.pass(8);
+        check.is("went: WOUNDED", 7, x.ofSector(0, 9));
+        x.pass(1);
+        check.is("went: DONE", 3, x.ofTrain(16, 2));
+        check.is("went: WOUNDED that are left", 1, x.ofSector(0, 9));
+        check.is("went: WOUNDED that were taken home", 6, x.ofSector(0, 10));
+        check.is("went: WOUNDED of the other SECTOR", 7, x.ofSector(1, 9));
+        check.is("went: none of these was taken home", 0, x.ofSector(1, 10));
+        check.is("went: the ROAD", 166, x.ofSector(0, 12));
+        check.is("went: the ROAD of the other SECTOR", road, x.ofSector(1, 12));
+        x.pass(6);
+        check.is("went: it is at the SECTOR for which it went", 9, x.ofSector(0, 2));
+        check.is("went: not at the other one", 8, x.ofSector(1, 2));
     }
 
     /** SECTORS do not touch each other: STORES, fights and WOUNDED are those of each. */

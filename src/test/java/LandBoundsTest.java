@@ -15,6 +15,7 @@ public final class LandBoundsTest {
         theLongestWay();
         ofSeveralTheSmallestNumber();
         theLeastTimeIsNotTheLeastOfLines();
+        theWayThereAndTheWayBack();
         bridges();
         aClosedLineIsGoneOnWith();
         oneTrainInABlock();
@@ -243,6 +244,17 @@ public final class LandBoundsTest {
         x.line(3, 0, 2, true, 1);
         check.is("least: 6 by a new one", 5, x.way(0, 3, 1));
         check.is("least: TIME", 6, x.way(0, 3, 0));
+    }
+
+    /** Of several at a STATION the smallest number, whatever the way to it was. */
+    private static void theWayThereAndTheWayBack() {
+        ThirteenthDay x = Worlds.anotherWayBack();
+        int[] there = {4, 1, 1};
+        int[] back = {4, 0, 2};
+        for (int what = 0; what <= 2; what++) {
+            check.is("there: " + what, there[what], x.way(0, 3, what));
+            check.is("back: " + what, back[what], x.way(3, 0, what));
+        }
     }
 
     private static void bridges() {

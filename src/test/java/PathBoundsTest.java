@@ -8,6 +8,7 @@ public final class PathBoundsTest {
     public static void main(String[] args) {
         aPathTickByTick();
         aPathWithoutLines();
+        aPathThereAndOneBack();
         aPaceApart();
         theOtherDirectionOfASingleLine();
         onDifferentLines();
@@ -81,6 +82,30 @@ public final class PathBoundsTest {
         }
     }
 
+    /** The way from HOME to the RAILHEAD: by LINE 1 there, by LINES 0 and 2 back. */
+    private static void aPathThereAndOneBack() {
+        ThirteenthDay x = Worlds.anotherWayBack();
+        x.railhead(0, 3, 6);
+        x.railhead(1, 0, 6);
+        x.unit(0, 1, 0, 0);
+        x.unit(0, 1, 3, 1);
+        check.is("there and back: START", 20, x.plan(0, 20));
+        check.is("there and back: START of the other one", 20, x.plan(1, 20));
+        check.is("there: LINES", 1, x.path(0, 0, 2));
+        check.is("there: ARRIVES", 24, x.path(0, 0, 1));
+        check.is("back: LINES", 2, x.path(1, 0, 2));
+        check.is("back: ARRIVES", 25, x.path(1, 0, 1));
+        x.order(3);
+        x.pass(20);
+        check.is("there: the TRAIN", "0 staff 0/0 on 1.0", x.tell(0));
+        check.is("back: the TRAIN", "1 staff 1/0 on 0.0", x.tell(1));
+        x.pass(20);
+        int[] through = {1, 1, 1};
+        for (int line = 0; line < 3; line++) {
+            check.is("there and back: came through " + line, through[line], x.ofLine(line, 6));
+        }
+    }
+
     /** No TICK in which two are on one BLOCK: PACE TICKS apart they are not, one TICK less and they are. */
     private static void aPaceApart() {
         for (int grade = 0; grade <= 2; grade++) {
@@ -135,6 +160,7 @@ public final class PathBoundsTest {
         check.is("different: over 0 and 1", 100, x.plan(0, 100));
         check.is("different: over 1 and 2, each 5 TICKS ahead of or behind the other one", 100, x.plan(1, 100));
         check.is("different: over 2 and 0", 100, x.plan(2, 100));
+        check.is("different: sound", true, x.isSound());
         for (int line = 0; line < 3; line++) {
             for (int tick = 99; tick <= 110; tick++) {
                 int due = tick >= 100 && tick <= 103 || tick >= 105 && tick <= 108 ? 1 : 0;

@@ -11,6 +11,8 @@ public final class TrainBoundsTest {
         withoutAnEngine();
         whoHasTheLastEngine();
         severalAtOneTick();
+        enginesOfEachHome();
+        theWayOfEachMoment();
         theSixtiethIsALoad();
         theSixtiethIsASupply();
         asManyAsRampsAndSidings();
@@ -28,6 +30,7 @@ public final class TrainBoundsTest {
         noWater();
         enginesComeBack();
         theWayOfTheMomentItIsDone();
+        enginesThatAreBackAtOnce();
         comingThrough();
         factsOfOneThatIsDone();
         check.end();
@@ -218,6 +221,72 @@ public final class TrainBoundsTest {
         check.is("several: START 81 and 82", 4, x.many(5));
         x.pass(1);
         check.is("several: START 83", 5, x.many(5));
+    }
+
+    /** Of the STATION that is its HOME: one at STATION 0 is of no use elsewhere, and comes back to nobody else. */
+    private static void enginesOfEachHome() {
+        ThirteenthDay x = new ThirteenthDay();
+        for (int k = 0; k < 3; k++) {
+            x.station(3, 5, k == 2 ? 0 : 1, false);
+        }
+        x.line(0, 1, 1, true, 0);
+        x.line(1, 2, 1, true, 0);
+        x.railhead(0, 0, 6);
+        x.unit(0, 2, 1, 0);
+        x.unit(0, 1, 2, 0);
+        check.is("each HOME: START", 22, x.plan(0, 20));
+        check.is("each HOME: START of the other UNIT", 30, x.plan(1, 30));
+        x.order(3);
+        int[] ticks = {19, 20, 28, 29, 37, 38, 100};
+        int[] engines = {1, 0, 0, 0, 0, 1, 1};
+        int[] gone = {0, 1, 1, 2, 2, 2, 2};
+        for (int k = 0; k < ticks.length; k++) {
+            Worlds.passTo(x, ticks[k]);
+            check.is("each HOME: ENGINES at 1 at " + ticks[k], engines[k], x.ofStation(1, 2));
+            check.is("each HOME: ENGINES at 0 at " + ticks[k], 1, x.ofStation(0, 2));
+            check.is("each HOME: ENGINES at 2 at " + ticks[k], 0, x.ofStation(2, 2));
+            check.is("each HOME: gone at " + ticks[k], gone[k], x.ofUnit(0, 7));
+            check.is("each HOME: without an ENGINE at " + ticks[k], 0, x.ofUnit(1, 7));
+        }
+        check.is("each HOME: LOADS of both are READY", 1, x.ofUnit(1, 6));
+    }
+
+    /** By the way of each moment from where it stands, though it be back; without one it stands there. */
+    private static void theWayOfEachMoment() {
+        ThirteenthDay x = Worlds.chain(4, 3, 5, 1, true, 0);
+        x.line(1, 3, 1, true, 0);
+        x.railhead(0, 2, 6);
+        x.unit(0, 1, 0, 0);
+        check.is("moment: START", 20, x.plan(0, 20));
+        check.is("moment: by LINES 0 and 1", 25, x.path(0, 0, 1));
+        x.order(1);
+        x.pass(22);
+        check.is("moment: it stands at 1", "0 staff 0/0 at 1", x.tell(0));
+        x.bridge(1);
+        check.is("moment: there is another way", 0, x.waits(0));
+        x.bridge(3);
+        check.is("moment: no way", 6, x.waits(0));
+        x.pass(8);
+        check.is("moment: still no way", 6, x.waits(0));
+        check.is("moment: it stands still", "0 staff 0/0 at 1", x.tell(0));
+        x.bridge(3);
+        check.is("moment: it may go", 0, x.waits(0));
+        x.pass(1);
+        check.is("moment: by LINE 3", "0 staff 0/0 on 3.0", x.tell(0));
+        x.pass(2);
+        check.is("moment: it stands at 3", "0 staff 0/0 at 3", x.tell(0));
+        x.bridge(1);
+        x.bridge(2);
+        x.pass(1);
+        check.is("moment: back by LINE 3", "0 staff 0/0 on 3.0", x.tell(0));
+        x.pass(2);
+        check.is("moment: again at 1", "0 staff 0/0 at 1", x.tell(0));
+        check.is("moment: twice over LINE 3", 2, x.ofLine(3, 6));
+        x.pass(1);
+        check.is("moment: by LINE 1", "0 staff 0/0 on 1.0", x.tell(0));
+        x.pass(3);
+        check.is("moment: unloaded at its GOAL", "0 staff 0/0 unloads at 2", x.tell(0));
+        check.is("moment: LATE", 15, x.ofTrain(0, 7));
     }
 
     /** TRAINS: 60 at most; no more go then. */
@@ -686,6 +755,31 @@ public final class TrainBoundsTest {
             check.is("moment: a TICK too early", 0, x.ofStation(0, 2));
             x.pass(1);
             check.is("moment: back", 1, x.ofStation(0, 2));
+        }
+    }
+
+    /** At once at HOME (no other one), if the TIME is 0, or without a way. */
+    private static void enginesThatAreBackAtOnce() {
+        for (int home = 0; home < 3; home++) {
+            for (int railhead = 0; railhead < 3; railhead++) {
+                ThirteenthDay x = Worlds.chain(3, 3, 5, 1, true, 0);
+                x.railhead(0, railhead, 6);
+                x.unit(0, 1, home, 0);
+                x.plan(0, 20);
+                x.order(1);
+                x.pass(20);
+                int lines = Math.abs(home - railhead);
+                x.pass(Math.max(1, 3 * lines));
+                x.bridge(0);
+                x.bridge(1);
+                check.is("at once: it is unloaded", 2, x.ofTrain(0, 2));
+                check.is("at once: not yet", 8, x.ofStation(home, 2));
+                x.pass(lines == 0 ? 1 : 2);
+                check.is("at once: DONE", 3, x.ofTrain(0, 2));
+                for (int station = 0; station < 3; station++) {
+                    check.is("at once: ENGINES at " + station, 9, x.ofStation(station, 2));
+                }
+            }
         }
     }
 

@@ -17,6 +17,7 @@ public final class UnitBoundsTest {
         railheadsOfOtherSectors();
         setsOfUnits();
         wiresByTheirLines();
+        wiresByTheWayThere();
         wiresWithoutAWay();
         depotsOneBehindTheOther();
         depotsAsTheyWereCalled();
@@ -253,6 +254,18 @@ public final class UnitBoundsTest {
             check.is("wire: and STOPPED", STOPPED, x.ofUnit(0, 4));
             check.is("wire: no wires", 0, x.many(11));
         }
+    }
+
+    /** Of the way from STATION 0 to HOME, not of the way back: 1 LINE, not 2. */
+    private static void wiresByTheWayThere() {
+        ThirteenthDay x = Worlds.anotherWayBack();
+        x.unit(0, 1, 3, 0);
+        x.order(1);
+        check.is("there: a wire to STOP", 3, x.stop(0));
+        x.pass(2);
+        check.is("there: ORDERED", ORDERED, x.ofUnit(0, 4));
+        x.pass(1);
+        check.is("there: CALLED", 3, x.ofUnit(0, 5));
     }
 
     /** 30 later without a way: that of the moment in which the wire is sent. */

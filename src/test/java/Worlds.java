@@ -15,6 +15,21 @@ final class Worlds {
         return x;
     }
 
+    /**
+     * From 0 to 3 there are LINE 1 alone, and over 2 LINES 0 and 2, in the same TIME of 4: of LINES at 3 the smallest
+     * one leads over 2, of LINES at 0 the smallest one does not. So the way there is not the way back.
+     */
+    static ThirteenthDay anotherWayBack() {
+        ThirteenthDay x = new ThirteenthDay();
+        for (int k = 0; k < 4; k++) {
+            x.station(3, 5, 9, false);
+        }
+        x.line(2, 3, 1, true, 0);
+        x.line(0, 3, 2, true, 0);
+        x.line(0, 2, 1, true, 0);
+        return x;
+    }
+
     /** One STATION that is all: HOME, and RAILHEAD of SECTORS 0 and 1 (MARCH 6); nobody needs a LINE. */
     static ThirteenthDay camp() {
         ThirteenthDay x = new ThirteenthDay();
