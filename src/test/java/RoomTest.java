@@ -1,13 +1,13 @@
 import java.lang.reflect.Method;
 
 /**
- * All calls of one run live in one room of some 600,000 objects and 7.3 million fields, so that a call may make some
- * thousand objects at most: counted are the bytes of each kind of call, where the machine can tell them.
+ * All calls of one run live in one room of some 600,000 objects and 7.3 million fields (of 4 bytes), which 512 calls
+ * share: counted are the bytes that each kind of call makes, where the machine can tell them.
  */
 public final class RoomTest {
     private static final Check check = new Check("RoomTest");
     private static final int CALLS = 100;
-    private static final int BYTES_OF_A_CALL = 16_000;
+    private static final int BYTES_OF_A_CALL = 7_300_000 * 4 / 512;
     private static final int BYTES_OF_AN_OBJECT = 1_000_000;
 
     private static Object counter;
